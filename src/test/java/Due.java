@@ -1,0 +1,87 @@
+import java.util.Arrays;
+
+/** What is due: prints every answer that is another, and counts them. */
+final class Due {
+    /** A call that may answer or throw. */
+    interface Call {
+        long answer();
+    }
+
+    /** A call without an answer that may throw. */
+    interface Act {
+        void run();
+    }
+
+    private static int wrong = 0;
+    private static int looked = 0;
+
+    private Due() {
+    }
+
+    static void is(String what, long got, long want) {
+        looked++;
+        if (got != want) {
+            wrong++;
+            System.out.println(what + " answered " + got + ", due is " + want);
+        }
+    }
+
+    static void same(String what, String got, String want) {
+        looked++;
+        if (!got.equals(want)) {
+            wrong++;
+            System.out.println(what + " answered " + got + ", due is " + want);
+        }
+    }
+
+    static void thrown(String what, Class<? extends RuntimeException> want, Act act) {
+        looked++;
+        String got = "nothing";
+        try {
+            act.run();
+        } catch (RuntimeException e) {
+            got = e.getClass().getName();
+        }
+        if (!got.equals(want.getName())) {
+            wrong++;
+            System.out.println(what + " threw " + got + ", due is " + want.getName());
+        }
+    }
+
+    static String answer(Call call) {
+        try {
+            return Long.toString(call.answer());
+        } catch (RuntimeException e) {
+            return "throws." + e.getClass().getSimpleName();
+        }
+    }
+
+    static boolean anyWrong() {
+        return wrong > 0;
+    }
+
+    static void finish(String test) {
+        System.out.println(test + ": " + looked + " answers looked at, " + wrong + " wrong");
+        if (wrong > 0 || looked == 0) {
+            System.exit(1);
+        }
+    }
+
+    /** The digest that the document describes, of keys and values by turns. */
+    static long digest(byte[]... keysAndValues) {
+        long sum = 7;
+        for (byte[] row : keysAndValues) {
+            sum = sum * 31 + row.length;
+            for (byte cell : row) {
+                sum = sum * 31 + (cell & 255);
+            }
+        }
+        return sum;
+    }
+
+    static byte[] row(int length, int first) {
+        byte[] row = new byte[length];
+        Arrays.fill(row, (byte) first);
+        return row;
+    }
+}
