@@ -42,7 +42,8 @@ public final class LsmStore {
     private static final int LOG_BYTES = LOG_BLOCKS * BLOCK;
     private static final int LOG_AT = 2 * HEAD_BYTES;
     private static final int FIRST_FILE_BLOCK = 2 * HEAD_BLOCKS + 2 * LOG_BLOCKS;
-    private static final int FILE_BLOCKS = 768;
+    /* 512 calls leave at most some 340 blocks in use, and 130 more while all are put together. */
+    private static final int FILE_BLOCKS = 512;
     private static final int DISK_BYTES = (FIRST_FILE_BLOCK + FILE_BLOCKS) * BLOCK;
 
     /* The log is full long before its place ends, so that the largest batch always finds room. */
@@ -112,11 +113,13 @@ public final class LsmStore {
     }
 
     public int put() throws IllegalStateException, IllegalArgumentException, ArithmeticException {
-        return change(PUT);
+        addStep(PUT);
+        return batch.open ? batch.steps : finish();
     }
 
     public int remove() throws IllegalStateException, IllegalArgumentException, ArithmeticException {
-        return change(REMOVE);
+        addStep(REMOVE);
+        return batch.open ? batch.steps : finish();
     }
 
     public int commit() throws IllegalStateException, ArithmeticException {
@@ -203,6 +206,7 @@ public final class LsmStore {
         batch.open = false;
         views.clear();
         load();
+        recount();
         disk.on = true;
         disk.enter(Disk.UPKEEP);
         /* A record that was cut may stand behind the log's end: nothing may be written behind it. */
@@ -272,7 +276,8 @@ public final class LsmStore {
         return views.commits[s];
     }
 
-    private int change(int kind) {
+    /* A put or remove without a batch is done as a batch of one. */
+    private void addStep(int kind) {
         requireOn();
         if (theKey.length == 0) {
             throw new IllegalArgumentException("the key is empty");
@@ -284,7 +289,6 @@ public final class LsmStore {
             throw new IllegalStateException("the batch is full");
         }
         batch.add(kind, theKey, theValue);
-        return batch.open ? batch.steps : finish();
     }
 
     private int finish() {
@@ -407,7 +411,6 @@ public final class LsmStore {
         head.load(levels, files);
         log.open(head.area);
         commits = head.commits + log.replay();
-        recount();
     }
 
     private void recount() {
@@ -564,7 +567,8 @@ public final class LsmStore {
 
         void leave() {
             if (due) {
-                fail();
+                goOff();
+                throw new ArithmeticException("power failed");
             }
         }
 
@@ -585,7 +589,8 @@ public final class LsmStore {
                 System.arraycopy(from, start, cells, at, reached);
             }
             if (fails) {
-                fail();
+                goOff();
+                throw new ArithmeticException("power failed");
             }
             counting = counting || due && lasting;
         }
@@ -595,12 +600,11 @@ public final class LsmStore {
         }
 
         /* All that is not on the disk is lost, so nothing else is set right here. */
-        private void fail() {
+        private void goOff() {
             on = false;
             when = NEVER;
             due = false;
             counting = false;
-            throw new ArithmeticException("power failed");
         }
 
         int number(int at, int count) {
@@ -651,7 +655,7 @@ public final class LsmStore {
             }
             int inA = cells[a + 1] & 255;
             int inB = cells[b + 1] & 255;
-            int shared = Math.min(inA, inB);
+            int shared = inA < inB ? inA : inB;
             for (int i = ENTRY_HEAD; i < ENTRY_HEAD + shared; i++) {
                 int difference = (cells[a + i] & 255) - (cells[b + i] & 255);
                 if (difference != 0) {
@@ -967,8 +971,8 @@ public final class LsmStore {
         }
 
         int find(Row row, int view) {
-            int at = from(row, view);
-            return disk.hasKey(at, row) ? at : NONE;
+            int i = countBefore(row, view);
+            return i < count && disk.hasKey(index[i], row) ? index[i] : NONE;
         }
 
         int from(Row row, int view) {
@@ -1607,7 +1611,11 @@ public final class LsmStore {
         private void open(int step) {
             if (step == NEW_TABLE) {
                 Arrays.fill(filter, (byte) 0);
-                openTable();
+                Table table = files.takeTable();
+                if (table != null && count < MOST_TABLES) {
+                    made[count] = table;
+                    count++;
+                }
             }
             if (step != SAME_BLOCK) {
                 Arrays.fill(block, (byte) 0);
@@ -1628,14 +1636,6 @@ public final class LsmStore {
                 int place = bit & (FILTER_BITS - 1);
                 filter[place / 8] |= (byte) (1 << place % 8);
                 bit += stride;
-            }
-        }
-
-        private void openTable() {
-            Table table = files.takeTable();
-            if (table != null && count < MOST_TABLES) {
-                made[count] = table;
-                count++;
             }
         }
 

@@ -1,0 +1,196 @@
+import java.util.Arrays;
+
+/** Power that fails at every write, after every number of bytes, of each call that writes. */
+public final class PowerCutTest {
+    private static final int[] FEW_CUTS = {0, 1, 2, 3, 4, 5, 6, 7, 9, 17, 18, 100, 255, 256, 299, 300};
+    private static final int LOG_AT = 4096;
+
+    private PowerCutTest() {
+    }
+
+    public static void main(String[] args) {
+        for (int steps : new int[] {1, 2, 5, 30, 64}) {
+            cutsBeforeLasting(steps);
+        }
+        for (int keys : new int[] {8, 30, 66}) {
+            cutsBehindLasting(keys);
+        }
+        for (int call : new int[] {Step.FLUSH, Step.COMPACT, Step.REOPEN}) {
+            for (int keys : new int[] {0, 1, 12, 66}) {
+                cutsInUpkeep(call, keys);
+            }
+            imagesGrowByteByByte(call);
+        }
+        failuresInARow();
+        lastingWriteIsCutWhereSaid();
+        Due.finish("PowerCutTest");
+    }
+
+    /** The same calls on a store and its model: the same state, each time. */
+    private static final class Pair {
+        final Store store = new Store();
+        final Model model = new Model();
+
+        String call(int kind, long w, int a, int b, boolean f) {
+            Step step = new Step(kind, w, a, b, f);
+            String want = step.on(model);
+            Due.same(step.text(), step.on(store), want);
+            return want;
+        }
+
+        void fill(int keys, int valueWords) {
+            call(Step.VALUE, 0, 0, 0, true);
+            for (int i = 0; i < valueWords; i++) {
+                call(Step.VALUE, 0xA5A5A5A500L + i, 8, 0, false);
+            }
+            for (int i = 0; i < keys; i++) {
+                call(Step.KEY, i * 37 % 67, 2, 0, true);
+                call(Step.PUT, 0, 0, 0, false);
+            }
+        }
+
+        void compare(String where) {
+            Due.same(where, Step.state(store), Step.state(model));
+        }
+
+        /** What was left must also be good to go on from. */
+        void goOn(String where) {
+            compare(where + ", OFF");
+            call(Step.REOPEN, 0, 0, 0, false);
+            compare(where + ", on");
+            call(Step.KEY, 0x0203, 2, 0, true);
+            call(Step.VALUE, 0x99, 2, 0, true);
+            call(Step.PUT, 0, 0, 0, false);
+            call(Step.KEY, 37, 2, 0, true);
+            call(Step.REMOVE, 0, 0, 0, false);
+            call(Step.FLUSH, 0, 0, 0, false);
+            call(Step.REOPEN, 0, 0, 0, false);
+            compare(where + ", on again");
+        }
+    }
+
+    private static void cutsBeforeLasting(int steps) {
+        for (int b = 0; b <= 300; b += steps == 1 ? 1 : 7) {
+            Pair pair = new Pair();
+            pair.fill(5, steps % 4 * 8);
+            pair.call(Step.BEGIN, 0, 0, 0, false);
+            for (int i = 0; i < steps; i++) {
+                pair.call(Step.KEY, i, 2, 0, true);
+                pair.call(i % 5 == 3 ? Step.REMOVE : Step.PUT, 0, 0, 0, false);
+            }
+            pair.call(Step.POWER, 0, b, b, false);
+            String answer = pair.call(Step.COMMIT, 0, 0, 0, false);
+            Due.same("it failed", answer, "throws.ArithmeticException");
+            pair.goOn(steps + " steps, cut before lasting after " + b);
+        }
+    }
+
+    private static void cutsBehindLasting(int keys) {
+        for (int k = 0; k <= 90; k++) {
+            for (int b : k % 3 == 0 ? FEW_CUTS : new int[] {0, k}) {
+                Pair pair = new Pair();
+                pair.fill(keys, 22);
+                pair.call(Step.SNAPSHOT, 0, 0, 0, false);
+                pair.call(Step.BEGIN, 0, 0, 0, false);
+                for (int i = 0; i < 12; i++) {
+                    pair.call(Step.KEY, i * 5 + 1, 2, 0, true);
+                    pair.call(i % 5 == 3 ? Step.REMOVE : Step.PUT, 0, 0, 0, false);
+                }
+                pair.call(Step.POWER, 1, k, b, false);
+                String answer = pair.call(Step.COMMIT, 0, 0, 0, false);
+                Due.same("it failed", answer, "throws.ArithmeticException");
+                pair.goOn(keys + " keys, behind lasting, write " + k + " after " + b);
+            }
+        }
+    }
+
+    private static void cutsInUpkeep(int call, int keys) {
+        for (int k = 0; k <= 400; k += k < 130 ? 1 : 54) {
+            for (int b : k % 4 == 0 ? FEW_CUTS : new int[] {0, 1, 300}) {
+                Pair pair = new Pair();
+                pair.fill(keys, 22);
+                pair.call(Step.POWER, 2, k, b, false);
+                String answer = pair.call(call, 0, 0, 0, false);
+                Due.same("it failed", answer, "throws.ArithmeticException");
+                pair.goOn("call " + call + " of " + keys + " keys, write " + k + " after " + b);
+            }
+        }
+    }
+
+    private static LsmStore cutStore(int call, int k, int b) {
+        Pair pair = new Pair();
+        pair.fill(9, 9);
+        pair.call(Step.FLUSH, 0, 0, 0, false);
+        pair.fill(20, 3);
+        pair.call(Step.POWER, k < 0 ? 3 : 2, Math.max(0, k), b, false);
+        if (k != -2) {
+            pair.call(call, 0, 0, 0, false);
+        }
+        return pair.store.store;
+    }
+
+    private static int differences(byte[] a, byte[] b) {
+        int differences = 0;
+        for (int i = 0; i < a.length; i++) {
+            differences += a[i] == b[i] ? 0 : 1;
+        }
+        return differences;
+    }
+
+    /** A cut one byte later may leave one byte more on the disk, and nothing else. */
+    private static void imagesGrowByteByByte(int call) {
+        byte[] last = Inside.disk(cutStore(call, -2, 0));
+        byte[] end = Inside.disk(cutStore(call, -1, 0));
+        int changes = 0;
+        int k = 0;
+        while (k <= 400 && !Arrays.equals(last, end)) {
+            for (int b = 0; b <= 300; b++) {
+                byte[] next = Inside.disk(cutStore(call, k, b));
+                int different = differences(last, next);
+                int most = b > 0 ? 1 : k == 0 ? 0 : 512 - 300;
+                Due.is("call " + call + ", write " + k + " after " + b, Math.max(different, most), most);
+                changes += different;
+                last = next;
+            }
+            k++;
+        }
+        Due.is("call " + call + " has writes that are cut", changes > 300 ? 1 : 0, 1);
+        Due.is("call " + call + " comes to its end", differences(last, end) == 0 ? 1 : 0, 1);
+    }
+
+    private static void failuresInARow() {
+        Pair pair = new Pair();
+        pair.fill(66, 22);
+        for (int i = 0; i < 400; i++) {
+            pair.call(Step.POWER, 2, i % 61, i * 7 % 301, false);
+            pair.call(i % 3 == 0 ? Step.FLUSH : i % 3 == 1 ? Step.COMPACT : Step.REOPEN, 0, 0, 0, false);
+            pair.compare("failure " + i + ", OFF");
+            if (i % 4 != 0) {
+                pair.call(Step.REOPEN, 0, 0, 0, false);
+                pair.compare("failure " + i + ", on");
+            }
+        }
+    }
+
+    private static void lastingWriteIsCutWhereSaid() {
+        int record = 2 + 8 + 2 + 3 + 1;
+        for (int b = 0; b <= 300; b++) {
+            LsmStore x = new LsmStore();
+            x.key(0x0102, 2, true);
+            x.value(0x030405, 3, true);
+            x.power(0, 0, b);
+            Due.same("put", Due.answer(x::put), "throws.ArithmeticException");
+            byte[] cut = Inside.disk(x);
+            LsmStore y = new LsmStore();
+            y.key(0x0102, 2, true);
+            y.value(0x030405, 3, true);
+            y.put();
+            byte[] whole = Inside.disk(y);
+            int reached = Math.min(b, record - 1);
+            for (int i = 0; i < record; i++) {
+                int want = i < reached ? whole[LOG_AT + i] : 0;
+                Due.is("cut after " + b + ", byte " + i, cut[LOG_AT + i], want);
+            }
+        }
+    }
+}
