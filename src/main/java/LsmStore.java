@@ -19,7 +19,7 @@ public final class LsmStore {
     private static final int NONE = -1;
 
     /* A view sees the commits up to its own number; numbers start at 1. */
-    private static final int NEWEST = Integer.MAX_VALUE;
+    private static final int NEWEST = 0x7FFFFFFF;
     private static final int OLDEST = 0;
 
     /* An entry: kind, bytes of key, bytes of value, 0, number of its commit (4), key, value. */
@@ -556,8 +556,6 @@ public final class LsmStore {
             when = next;
             left = k;
             cut = b;
-            due = false;
-            counting = false;
         }
 
         void enter(boolean commit) {
@@ -603,8 +601,6 @@ public final class LsmStore {
         private void goOff() {
             on = false;
             when = NEVER;
-            due = false;
-            counting = false;
         }
 
         int number(int at, int count) {
@@ -1476,16 +1472,14 @@ public final class LsmStore {
         /* What no view sees goes; below the last level there is nothing that a remove could hide. */
         void thin(Views views, boolean lowest) {
             int kept = 0;
-            int group = 0;
             int previous = NONE;
             int newer = 0;
             for (int i = 0; i < count; i++) {
                 int at = list[i];
                 int commit = disk.number(at + COMMIT_AT, 4);
                 boolean newKey = previous == NONE || disk.order(previous, at) != 0;
-                if (newKey) {
-                    kept = lowest ? withoutRemoves(group, kept) : kept;
-                    group = kept;
+                if (newKey && lowest) {
+                    kept = withoutRemoves(kept);
                 }
                 if (newKey || views.see(commit, newer)) {
                     list[kept] = at;
@@ -1494,12 +1488,12 @@ public final class LsmStore {
                 previous = at;
                 newer = commit;
             }
-            count = lowest ? withoutRemoves(group, kept) : kept;
+            count = lowest ? withoutRemoves(kept) : kept;
         }
 
-        private int withoutRemoves(int from, int to) {
-            int end = to;
-            while (end > from && end > 0 && disk.kind(list[end - 1]) == REMOVE) {
+        private int withoutRemoves(int kept) {
+            int end = kept;
+            while (end > 0 && disk.kind(list[end - 1]) == REMOVE) {
                 end--;
             }
             return end;
@@ -1543,12 +1537,6 @@ public final class LsmStore {
             this.files = files;
         }
 
-        private void restart() {
-            count = 0;
-            started = 0;
-            fill = 0;
-        }
-
         private int stepTo(Rows rows, int i) {
             boolean fits = fill + disk.entryLength(rows.list[i]) <= BLOCK;
             boolean newKey = i == 0 || disk.order(rows.list[i - 1], rows.list[i]) != 0;
@@ -1571,7 +1559,6 @@ public final class LsmStore {
         }
 
         boolean hasRoom(Rows rows) {
-            restart();
             int blocks = 0;
             int tables = 0;
             for (int i = 0; i < rows.count; i++) {
@@ -1587,7 +1574,7 @@ public final class LsmStore {
         }
 
         void store(Rows rows) {
-            restart();
+            count = 0;
             for (int i = 0; i < rows.count; i++) {
                 int step = stepTo(rows, i);
                 if (step != SAME_BLOCK && i > 0) {

@@ -20,7 +20,15 @@ public final class DiskTest {
         checkSeesDeniedKeys();
         checkSeesBlocksOfTwoFiles();
         checkSeesBlocksOfNone();
+        checkSeesBlocksOutside();
         blocksAreGivenBack();
+        justWhatIsSeenIsKept();
+        for (int free = 0; free < 40; free++) {
+            fullDiskLosesNothing(free);
+        }
+        smallFilesArePutTogether(1);
+        smallFilesArePutTogether(-1);
+        filterDeniesMost();
         Due.finish("DiskTest");
     }
 
@@ -197,6 +205,52 @@ public final class DiskTest {
         Due.is("set right", x.check(), 0);
     }
 
+    /** Out of reach of 512 calls, so the blocks are taken from inside. */
+    private static void fullDiskLosesNothing(int free) {
+        LsmStore x = new LsmStore();
+        Object files = Inside.of(x, "files");
+        boolean[] taken = (boolean[]) Inside.of(files, "taken");
+        for (int i = free; i < taken.length; i++) {
+            taken[i] = true;
+        }
+        Inside.set(files, "freeBlocks", free);
+        for (int i = 0; i < 25; i++) {
+            x.value(i, 8, i == 0);
+        }
+        for (int i = 0; i < 600; i++) {
+            x.key(i % 70, 2, true);
+            long before = x.digest(-1);
+            String answer = Due.answer(x::put);
+            if (answer.startsWith("throws.")) {
+                Due.same("the disk is full", answer, "throws.IllegalStateException");
+                Due.is("nothing changes", x.digest(-1), before);
+            } else {
+                Due.is("it is there", x.get(-1), 200);
+            }
+            if (i % 50 == 0) {
+                x.flush();
+                x.compact();
+            }
+        }
+        Due.is("the map is there", x.told(2) <= 70 && x.told(1) == x.told(2) * 210 ? 1 : 0, 1);
+        long map = x.digest(-1);
+        x.reopen();
+        Due.is("it lasts", x.digest(-1), map);
+    }
+
+    private static void checkSeesBlocksOutside() {
+        LsmStore x = filled(5, 1);
+        x.flush();
+        int[] blocks = Inside.blocks(x, 0, 0);
+        int was = blocks[0];
+        for (int outside : new int[] {-1, 0, 3, 79, 592, 100000}) {
+            blocks[0] = outside;
+            Due.is("a block outside the files' place", x.check() > 1 ? 1 : 0, 1);
+        }
+        blocks[0] = was;
+        Due.is("set right", x.check(), 0);
+    }
+
     private static void blocksAreGivenBack() {
         LsmStore x = filled(70, 20);
         x.compact();
@@ -215,5 +269,66 @@ public final class DiskTest {
         Due.is("blocks are given back", Inside.number(files, "freeBlocks"), free);
         Due.is("tables are given back", Inside.number(files, "freeTables"), freeTables);
         Due.is("nothing is wrong", x.check(), 0);
+    }
+
+    private static void justWhatIsSeenIsKept() {
+        LsmStore x = new LsmStore();
+        x.key(7, 1, true);
+        for (int i = 0; i < 12; i++) {
+            x.value(i, 1, true);
+            x.put();
+            if (i % 3 == 2) {
+                x.snapshot();
+            }
+        }
+        x.compact();
+        Due.is("the last is seen by a snapshot too", Inside.number(Inside.of(x, "rows"), "count"), 4);
+        x.put();
+        x.compact();
+        Due.is("five are seen", Inside.number(Inside.of(x, "rows"), "count"), 5);
+        x.release(1);
+        x.compact();
+        Due.is("four are seen", Inside.number(Inside.of(x, "rows"), "count"), 4);
+        Due.is("the first snapshot's", x.get(0), 1);
+        Due.is("its value", x.bytes(true, 0), 2L << 56);
+        Due.is("the third one's", x.get(2), 1);
+        Due.is("its value", x.bytes(true, 0), 8L << 56);
+    }
+
+    private static void smallFilesArePutTogether(int way) {
+        LsmStore x = new LsmStore();
+        x.value(1, 8, true);
+        for (int i = 0; i < 120; i++) {
+            x.key(500 + way * i, 2, true);
+            x.put();
+            x.flush();
+            int files = Inside.tables(x, 0) + Inside.tables(x, 1) + Inside.tables(x, 2);
+            Due.is("few files, way " + way, Math.max(files, 6), 6);
+            Due.is("nothing is wrong", x.check(), 0);
+        }
+    }
+
+    private static void filterDeniesMost() {
+        LsmStore x = filled(70, 8);
+        x.compact();
+        int allowed = 0;
+        for (int i = 0; i < 2000; i++) {
+            byte[] key = {(byte) (i >> 8), (byte) (i | 1), (byte) i};
+            for (int n = 0; n < Inside.tables(x, 2); n++) {
+                allowed += Inside.allows(Inside.table(x, 2, n), key) ? 1 : 0;
+            }
+        }
+        Due.is("a filter denies most that is not there", Math.max(allowed, 20), 20);
+        int entriesInBlock = BLOCK / (8 + 2 + 64);
+        for (int n = 0; n < Inside.tables(x, 2); n++) {
+            int dataBlocks = Inside.blockCount(x, 2, n) - 1;
+            int most = 4 * entriesInBlock * dataBlocks;
+            int filter = Inside.blocks(x, 2, n)[dataBlocks] * BLOCK;
+            int bits = 0;
+            for (int i = 0; i < BLOCK; i++) {
+                bits += Integer.bitCount(Inside.disk(x)[filter + i] & 255);
+            }
+            Due.is("four bits of each of its own keys alone", Math.max(bits, most), most);
+        }
     }
 }

@@ -1,4 +1,5 @@
 import java.lang.reflect.Field;
+import java.lang.reflect.Method;
 
 /** A look inside the store, for what its face cannot show. */
 final class Inside {
@@ -10,6 +11,16 @@ final class Inside {
             Field field = owner.getClass().getDeclaredField(name);
             field.setAccessible(true);
             return field.get(owner);
+        } catch (ReflectiveOperationException e) {
+            throw new IllegalStateException("no field " + name, e);
+        }
+    }
+
+    static void set(Object owner, String name, int value) {
+        try {
+            Field field = owner.getClass().getDeclaredField(name);
+            field.setAccessible(true);
+            field.setInt(owner, value);
         } catch (ReflectiveOperationException e) {
             throw new IllegalStateException("no field " + name, e);
         }
@@ -41,6 +52,17 @@ final class Inside {
 
     static int blockCount(LsmStore store, int level, int i) {
         return number(table(store, level, i), "count");
+    }
+
+    static boolean allows(Object table, byte[] key) {
+        try {
+            Method method = table.getClass()
+                .getDeclaredMethod("allows", byte[].class, int.class, int.class);
+            method.setAccessible(true);
+            return (Boolean) method.invoke(table, key, 0, key.length);
+        } catch (ReflectiveOperationException e) {
+            throw new IllegalStateException("no method allows", e);
+        }
     }
 
     /** A new store that has nothing of another but its disk. */

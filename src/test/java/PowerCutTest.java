@@ -4,6 +4,7 @@ import java.util.Arrays;
 public final class PowerCutTest {
     private static final int[] FEW_CUTS = {0, 1, 2, 3, 4, 5, 6, 7, 9, 17, 18, 100, 255, 256, 299, 300};
     private static final int LOG_AT = 4096;
+    private static final int LOG_BYTES = 36 * 512;
 
     private PowerCutTest() {
     }
@@ -21,6 +22,8 @@ public final class PowerCutTest {
             }
             imagesGrowByteByByte(call);
         }
+        imagesGrowByteByByte(Step.PUT);
+        placeOfTheLogIsBlank();
         failuresInARow();
         lastingWriteIsCutWhereSaid();
         Due.finish("PowerCutTest");
@@ -117,16 +120,21 @@ public final class PowerCutTest {
         }
     }
 
-    private static LsmStore cutStore(int call, int k, int b) {
+    /** A put that fills the log, or upkeep of a file and a log; as said by k, or whole if k is below 0. */
+    private static byte[] cutImage(int call, int k, int b) {
         Pair pair = new Pair();
-        pair.fill(9, 9);
-        pair.call(Step.FLUSH, 0, 0, 0, false);
-        pair.fill(20, 3);
-        pair.call(Step.POWER, k < 0 ? 3 : 2, Math.max(0, k), b, false);
-        if (k != -2) {
-            pair.call(call, 0, 0, 0, false);
+        if (call == Step.PUT) {
+            pair.fill(24, 9);
+            pair.call(Step.KEY, 0x0708, 2, 0, true);
+        } else {
+            pair.fill(9, 9);
+            pair.call(Step.FLUSH, 0, 0, 0, false);
+            pair.fill(20, 3);
         }
-        return pair.store.store;
+        int when = call == Step.PUT ? 1 : 2;
+        pair.call(Step.POWER, k < 0 ? 3 : when, Math.max(0, k), b, false);
+        pair.call(call, 0, 0, 0, false);
+        return Inside.disk(pair.store.store);
     }
 
     private static int differences(byte[] a, byte[] b) {
@@ -139,20 +147,18 @@ public final class PowerCutTest {
 
     /** A cut one byte later may leave one byte more on the disk, and nothing else. */
     private static void imagesGrowByteByByte(int call) {
-        byte[] last = Inside.disk(cutStore(call, -2, 0));
-        byte[] end = Inside.disk(cutStore(call, -1, 0));
+        byte[] last = cutImage(call, 0, 0);
+        byte[] end = cutImage(call, -1, 0);
         int changes = 0;
-        int k = 0;
-        while (k <= 400 && !Arrays.equals(last, end)) {
+        for (int k = 0; k <= 400 && !Arrays.equals(last, end); k++) {
             for (int b = 0; b <= 300; b++) {
-                byte[] next = Inside.disk(cutStore(call, k, b));
+                byte[] next = cutImage(call, k, b);
                 int different = differences(last, next);
-                int most = b > 0 ? 1 : k == 0 ? 0 : 512 - 300;
+                int most = b > 0 ? 1 : 512 - 300;
                 Due.is("call " + call + ", write " + k + " after " + b, Math.max(different, most), most);
                 changes += different;
                 last = next;
             }
-            k++;
         }
         Due.is("call " + call + " has writes that are cut", changes > 300 ? 1 : 0, 1);
         Due.is("call " + call + " comes to its end", differences(last, end) == 0 ? 1 : 0, 1);
@@ -192,5 +198,47 @@ public final class PowerCutTest {
                 Due.is("cut after " + b + ", byte " + i, cut[LOG_AT + i], want);
             }
         }
+    }
+
+    /** A large record that was cut must not shine through when its place is used again. */
+    private static void placeOfTheLogIsBlank() {
+        for (int b = 0; b <= 300; b += 20) {
+            for (boolean fresh : new boolean[] {false, true}) {
+                LsmStore x = new LsmStore();
+                for (int i = 0; i < 25; i++) {
+                    x.value(0xA5A5A5A5A5A5A5A5L, 8, i == 0);
+                }
+                x.begin();
+                for (int i = 0; i < 64; i++) {
+                    x.key(i, 2, true);
+                    x.put();
+                }
+                x.power(0, 0, b);
+                Due.same("commit", Due.answer(x::commit), "throws.ArithmeticException");
+                x = fresh ? Inside.fromDiskOf(x) : x;
+                for (int i = 0; i < 4; i++) {
+                    x.reopen();
+                    Due.is("blank behind the log", soiled(x), 0);
+                    x.key(1, 1, true);
+                    x.put();
+                    Due.is("blank behind the log", soiled(x), 0);
+                    x.flush();
+                    Due.is("blank behind the log", soiled(x), 0);
+                    LsmStore y = Inside.fromDiskOf(x);
+                    y.reopen();
+                    Due.is("blank behind the log", soiled(y), 0);
+                }
+            }
+        }
+    }
+
+    private static int soiled(LsmStore x) {
+        Object log = Inside.of(x, "log");
+        int start = LOG_AT + Inside.number(log, "area") * LOG_BYTES;
+        int soiled = 0;
+        for (int i = Inside.number(log, "used"); i < LOG_BYTES; i++) {
+            soiled += Inside.disk(x)[start + i] == 0 ? 0 : 1;
+        }
+        return soiled;
     }
 }

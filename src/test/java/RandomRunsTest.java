@@ -3,8 +3,9 @@ import java.util.Random;
 /** Runs of 512 random calls, each call made of the store and of the model. */
 public final class RandomRunsTest {
     private static final int CALLS = 512;
-    private static final int RUNS = 1500;
-    private static final int PROFILES = 6;
+    private static final int RUNS = 1600;
+    private static final int PROFILES = 8;
+    private static final int LARGE = 6;
 
     private final Random random;
     private final int profile;
@@ -29,7 +30,8 @@ public final class RandomRunsTest {
         Store store = new Store();
         Model model = new Model();
         for (int i = 0; i < CALLS && !Due.anyWrong(); i++) {
-            Step step = next();
+            boolean fillFirst = profile >= LARGE && i < 25;
+            Step step = fillFirst ? new Step(Step.VALUE, random.nextLong(), 8, 0, false) : next();
             String where = "run " + run + ", call " + i + ", " + step.text();
             String want = step.on(model);
             Due.same(where, step.on(store), want);
@@ -65,6 +67,16 @@ public final class RandomRunsTest {
             set(Step.BEGIN, 8);
             set(Step.COMMIT, 3);
         }
+        if (profile >= LARGE) {
+            set(Step.KEY, 100);
+            set(Step.PUT, 100);
+            set(Step.VALUE, 1);
+            set(Step.REMOVE, 4);
+            set(Step.GET, 1);
+            set(Step.BEGIN, profile == LARGE ? 0 : 6);
+            set(Step.COMMIT, profile == LARGE ? 0 : 3);
+            set(Step.SEEK, 2);
+        }
         if (profile == 5) {
             set(Step.PUT, 200);
             set(Step.KEY, 120);
@@ -92,6 +104,9 @@ public final class RandomRunsTest {
         boolean f = random.nextBoolean();
         switch (kind) {
             case Step.KEY:
+                if (profile >= LARGE) {
+                    return new Step(kind, random.nextInt(400) * 0x0301, 4, 0, random.nextInt(40) > 0);
+                }
                 return rowStep(kind, profile == 5 ? 2 : 4);
             case Step.VALUE:
                 return rowStep(kind, 12);
