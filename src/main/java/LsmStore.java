@@ -44,7 +44,7 @@ public final class LsmStore {
     private static final int FIRST_FILE_BLOCK = 2 * HEAD_BLOCKS + 2 * LOG_BLOCKS;
     /*
      * Reckoned: 512 calls change some 250 entries at most, or 170 with a flush behind each, so some
-     * 340 blocks are in use at most and 130 more while all are put together. Seen in tests: 283.
+     * 340 blocks are in use at most and 130 more while all are put together. The most seen in trials: 283.
      */
     private static final int FILE_BLOCKS = 512;
     private static final int DISK_BYTES = (FIRST_FILE_BLOCK + FILE_BLOCKS) * BLOCK;
