@@ -29,6 +29,11 @@ public final class DiskTest {
         smallFilesArePutTogether(1);
         smallFilesArePutTogether(-1);
         filterDeniesMost();
+        for (int last = 125; last <= 131; last++) {
+            entriesThatJustFillABlock(last);
+            blocksThatJustFillAFile(last);
+            recordsThatJustFillTheLog(last);
+        }
         Due.finish("DiskTest");
     }
 
@@ -306,6 +311,81 @@ public final class DiskTest {
             Due.is("few files, way " + way, Math.max(files, 6), 6);
             Due.is("nothing is wrong", x.check(), 0);
         }
+    }
+
+    /** Entries of 128 bytes, four to a block, but the last one of so many. */
+    private static LsmStore entries(int count, int last) {
+        LsmStore x = new LsmStore();
+        for (int i = 0; i < 118 / 8; i++) {
+            x.value(0x0101010101010101L * i, 8, false);
+        }
+        x.value(-1, 118 % 8, false);
+        for (int i = 0; i < count - 1; i++) {
+            x.key(i, 2, true);
+            x.put();
+        }
+        x.key(count - 1, 2, true);
+        x.value(0, 0, true);
+        for (int left = last - 10; left > 0; left -= 8) {
+            x.value(left, Math.min(8, left), false);
+        }
+        x.put();
+        return x;
+    }
+
+    private static void allAreFound(LsmStore x, int count, int last) {
+        for (int i = 0; i < count; i++) {
+            x.key(i, 2, true);
+            Due.is("key " + i, x.get(-1), i == count - 1 ? last - 10 : 118);
+            Due.is("the next of " + i, x.seek(-1, true), i == count - 1 ? -1 : 2);
+            x.key(i, 2, true);
+            Due.is("the one before " + i, x.before(-1), i == 0 ? -1 : 2);
+        }
+        Due.is("nothing is wrong", x.check(), 0);
+        sameFromDisk("of " + count, x);
+    }
+
+    private static void entriesThatJustFillABlock(int last) {
+        LsmStore x = entries(4, last);
+        x.flush();
+        Due.is("one block or two, and the filter's", Inside.blockCount(x, 0, 0), last <= 128 ? 2 : 3);
+        allAreFound(x, 4, last);
+    }
+
+    private static void blocksThatJustFillAFile(int last) {
+        LsmStore x = entries(16, last);
+        x.compact();
+        Due.is("one file or two", Inside.tables(x, 2), last <= 128 ? 1 : 2);
+        Due.is("four blocks and the filter's", Inside.blockCount(x, 2, 0), 5);
+        allAreFound(x, 16, last);
+    }
+
+    /** Fifteen records of 131 bytes; a file is made just as the log has more than 2048. */
+    private static void recordsThatJustFillTheLog(int last) {
+        int more = 2048 - 15 * 131 - 3 + last - 128;
+        LsmStore x = entries(16, more);
+        Due.is("a file or none", Inside.tables(x, 0), last > 128 ? 1 : 0);
+        int used = Inside.number(Inside.of(x, "log"), "used");
+        Due.is("bytes of the log", used, last > 128 ? 0 : 2048 + last - 128);
+        allAreFound(x, 16, more);
+        largestBatchFindsRoom(x);
+    }
+
+    private static void largestBatchFindsRoom(LsmStore x) {
+        int size = x.told(1);
+        long steps = 64 - Math.max(0, (size + 64 * 240 - 16000 + 239) / 240);
+        for (int i = 0; i < 25; i++) {
+            x.value(i, 8, i == 0);
+        }
+        x.begin();
+        for (int i = 0; i < 64; i++) {
+            for (int n = 0; n < 4; n++) {
+                x.key(-1 - Math.min(i, steps - 1), 8, n == 0);
+            }
+            x.put();
+        }
+        Due.is("the largest batch", x.commit(), size + steps * 240);
+        sameFromDisk("the largest batch", x);
     }
 
     private static void filterDeniesMost() {

@@ -14,23 +14,41 @@ final class Due {
 
     private static int wrong = 0;
     private static int looked = 0;
+    private static int sentences = 0;
+    private static String sentence = "";
 
     private Due() {
     }
 
-    static void is(String what, long got, long want) {
-        looked++;
-        if (got != want) {
-            wrong++;
-            System.out.println(what + " answered " + got + ", due is " + want);
+    /** A sentence of the document that names a boundary, in its own words, and the test of it. */
+    static void sentence(String section, String words, Act test) {
+        int before = looked;
+        sentence = section + ", \"" + words + "\": ";
+        sentences++;
+        try {
+            test.run();
+        } catch (RuntimeException e) {
+            report("the test was ended by " + e);
         }
+        if (looked == before) {
+            report("nothing was looked at");
+        }
+        sentence = "";
+    }
+
+    private static void report(String text) {
+        wrong++;
+        System.out.println(sentence + text);
+    }
+
+    static void is(String what, long got, long want) {
+        same(what, Long.toString(got), Long.toString(want));
     }
 
     static void same(String what, String got, String want) {
         looked++;
         if (!got.equals(want)) {
-            wrong++;
-            System.out.println(what + " answered " + got + ", due is " + want);
+            report(what + " answered " + got + ", due is " + want);
         }
     }
 
@@ -43,8 +61,7 @@ final class Due {
             got = e.getClass().getName();
         }
         if (!got.equals(want.getName())) {
-            wrong++;
-            System.out.println(what + " threw " + got + ", due is " + want.getName());
+            report(what + " threw " + got + ", due is " + want.getName());
         }
     }
 
@@ -61,7 +78,8 @@ final class Due {
     }
 
     static void finish(String test) {
-        System.out.println(test + ": " + looked + " answers looked at, " + wrong + " wrong");
+        String of = sentences > 0 ? " of " + sentences + " sentences" : "";
+        System.out.println(test + ": " + looked + " answers" + of + " looked at, " + wrong + " wrong");
         if (wrong > 0 || looked == 0) {
             System.exit(1);
         }

@@ -5,28 +5,6 @@ import java.util.Random;
  * document does not name for it, and each must end. Up to call 512 a flush always finds room.
  */
 public final class LongRunsTest {
-    private static final String[] MAY_THROW = {
-        "IllegalArgumentException",
-        "IllegalArgumentException",
-        "IllegalStateException",
-        "IllegalStateException IllegalArgumentException ArithmeticException",
-        "IllegalStateException IllegalArgumentException ArithmeticException",
-        "IllegalStateException ArithmeticException",
-        "IllegalStateException",
-        "IllegalStateException",
-        "IllegalStateException NoSuchElementException",
-        "IllegalStateException NoSuchElementException",
-        "IllegalStateException NoSuchElementException",
-        "IllegalStateException NoSuchElementException",
-        "IllegalArgumentException",
-        "IllegalStateException ArithmeticException",
-        "IllegalStateException ArithmeticException",
-        "IllegalArgumentException",
-        "ArithmeticException",
-        "IllegalArgumentException",
-        "IllegalStateException NoSuchElementException",
-        "IllegalStateException"};
-
     private LongRunsTest() {
     }
 
@@ -61,7 +39,7 @@ public final class LongRunsTest {
         String answer = step.on(store);
         if (answer.startsWith("throws.")) {
             String name = answer.substring("throws.".length());
-            boolean named = MAY_THROW[kind].contains(name);
+            boolean named = Document.mayThrow(kind, name);
             Due.same(where + step.text(), named ? "named" : name, "named");
         }
     }

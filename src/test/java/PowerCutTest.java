@@ -26,6 +26,7 @@ public final class PowerCutTest {
         placeOfTheLogIsBlank();
         failuresInARow();
         lastingWriteIsCutWhereSaid();
+        recordsThatEndWithABlock();
         Due.finish("PowerCutTest");
     }
 
@@ -196,6 +197,27 @@ public final class PowerCutTest {
             for (int i = 0; i < record; i++) {
                 int want = i < reached ? whole[LOG_AT + i] : 0;
                 Due.is("cut after " + b + ", byte " + i, cut[LOG_AT + i], want);
+            }
+        }
+    }
+
+    /** The mark may stand last in a block, or first and alone in the next one. */
+    private static void recordsThatEndWithABlock() {
+        for (int inValue = 70; inValue <= 80; inValue++) {
+            for (int when = 0; when <= 1; when++) {
+                for (int b : FEW_CUTS) {
+                    Pair pair = new Pair();
+                    pair.fill(2, 25);
+                    pair.call(Step.VALUE, 0, 0, 0, true);
+                    for (int i = 0; i < inValue; i++) {
+                        pair.call(Step.VALUE, i, 1, 0, false);
+                    }
+                    pair.call(Step.KEY, 1, 1, 0, true);
+                    pair.call(Step.POWER, when, 0, b, false);
+                    String answer = pair.call(Step.PUT, 0, 0, 0, false);
+                    Due.same("it failed", answer, "throws.ArithmeticException");
+                    pair.goOn("a value of " + inValue + ", when " + when + ", cut after " + b);
+                }
             }
         }
     }

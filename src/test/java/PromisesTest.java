@@ -41,39 +41,20 @@ public final class PromisesTest {
         Due.finish("PromisesTest");
     }
 
-    private static LsmStore stored(long... keys) {
-        LsmStore x = new LsmStore();
-        for (long key : keys) {
-            x.key(key, 2, true);
-            x.value(key * 3, 3, true);
-            x.put();
-        }
+    private static Store stored(long... keys) {
+        Store x = new Store();
+        Make.keys(x, keys);
         return x;
     }
 
-    private static LsmStore off() {
-        LsmStore x = stored(1);
-        x.power(0, 0, 0);
-        Due.thrown("put as power fails", POWER, x::put);
+    private static Store off() {
+        Store x = stored(1);
+        Make.off(x);
         return x;
-    }
-
-    private static void fillValue(LsmStore x, int bytes) {
-        x.value(0, 0, true);
-        for (int left = bytes; left > 0; left -= 8) {
-            x.value(0x0102030405060708L * left, Math.min(8, left), false);
-        }
-    }
-
-    private static void fillKey(LsmStore x, long w, int bytes) {
-        x.key(0, 0, true);
-        for (int left = bytes; left > 0; left -= 8) {
-            x.key(w, Math.min(8, left), false);
-        }
     }
 
     private static void promise1() {
-        LsmStore x = new LsmStore();
+        Store x = new Store();
         int[] want = {1, 0, 0, -1, 0, 0, 0, 0};
         for (int what = 0; what < 8; what++) {
             Due.is("1: told(" + what + ") of a new object", x.told(what), want[what]);
@@ -91,7 +72,7 @@ public final class PromisesTest {
     }
 
     private static void promise1OrderOfExceptions() {
-        LsmStore x = off();
+        Store x = off();
         x.key(0, 0, true);
         Due.thrown("1: put, OFF before an empty key", STATE, x::put);
         Due.thrown("1: remove, OFF before an empty key", STATE, x::remove);
@@ -112,7 +93,7 @@ public final class PromisesTest {
         Due.is("1: key, OFF", x.key(5, 1, true), 1);
         Due.is("1: value, OFF", x.value(5, 2, true), 2);
 
-        LsmStore y = new LsmStore();
+        Store y = new Store();
         y.begin();
         for (int i = 0; i < 64; i++) {
             y.key(i, 1, true);
@@ -125,7 +106,7 @@ public final class PromisesTest {
     }
 
     private static void promise2() {
-        LsmStore x = new LsmStore();
+        Store x = new Store();
         Due.is("2: two bytes", x.key(0xAB12345678L, 2, true), 2);
         Due.is("2: the low ones, highest first", x.bytes(false, 0), 0x5678L << 48);
         Due.is("2: none come behind", x.key(-1, 0, false), 2);
@@ -155,7 +136,7 @@ public final class PromisesTest {
     }
 
     private static void promise3() {
-        LsmStore x = new LsmStore();
+        Store x = new Store();
         Due.is("3: three bytes", x.value(0xAB12345678L, 3, true), 3);
         Due.is("3: the low ones, highest first", x.bytes(true, 0), 0x345678L << 40);
         Due.is("3: the key is another row", x.told(6), 0);
@@ -176,7 +157,7 @@ public final class PromisesTest {
     }
 
     private static void promise4() {
-        LsmStore x = stored(1);
+        Store x = stored(1);
         Due.is("4: no batch", x.told(3), -1);
         x.begin();
         Due.is("4: an empty batch", x.told(3), 0);
@@ -192,7 +173,7 @@ public final class PromisesTest {
     }
 
     private static void promise5() {
-        LsmStore x = new LsmStore();
+        Store x = new Store();
         Due.thrown("5: an empty key", ARGUMENT, x::put);
         Due.is("5: which is no commit", x.told(5), 0);
         x.key(1, 1, true);
@@ -205,8 +186,8 @@ public final class PromisesTest {
         Due.is("5: three commits", x.told(5), 3);
         Due.is("5: the value is there", x.get(-1), 3);
         Due.is("5: the key stays", x.told(6), 4);
-        fillKey(x, 7, 32);
-        fillValue(x, 200);
+        Make.key(x, 7, 32);
+        Make.value(x, 200);
         Due.is("5: the largest", x.put(), 267);
 
         x.begin();
@@ -224,8 +205,8 @@ public final class PromisesTest {
     }
 
     private static void promise5Size() {
-        LsmStore x = new LsmStore();
-        fillValue(x, 200);
+        Store x = new Store();
+        Make.value(x, 200);
         for (int i = 0; i < 76; i++) {
             x.key(i, 2, true);
             Due.is("5: SIZE", x.put(), 210 * (i + 1));
@@ -235,17 +216,17 @@ public final class PromisesTest {
         Due.is("5: what throws changes nothing", x.told(1), 15960);
         Due.is("5: and is no commit", x.told(5), 76);
         Due.is("5: and not there", x.get(-1), -1);
-        fillValue(x, 31);
+        Make.value(x, 31);
         Due.thrown("5: 16001", STATE, x::put);
-        fillValue(x, 30);
+        Make.value(x, 30);
         Due.is("5: just 16000", x.put(), 16000);
         x.key(1, 1, true);
         x.value(0, 0, true);
         Due.thrown("5: the smallest more", STATE, x::put);
         x.key(5, 2, true);
-        fillValue(x, 200);
+        Make.value(x, 200);
         Due.is("5: a value of as many bytes", x.put(), 16000);
-        fillValue(x, 199);
+        Make.value(x, 199);
         Due.is("5: a shorter one", x.put(), 15999);
         x.power(0, 0, 0);
         x.key(1, 8, true);
@@ -255,7 +236,7 @@ public final class PromisesTest {
     }
 
     private static void promise6() {
-        LsmStore x = stored(1, 2, 3);
+        Store x = stored(1, 2, 3);
         Due.is("6: a key that is there", x.remove(), 26);
         Due.is("6: one less", x.told(2), 2);
         Due.is("6: it is not there", x.get(-1), -1);
@@ -283,7 +264,7 @@ public final class PromisesTest {
     }
 
     private static void promise7() {
-        LsmStore x = stored(1, 2);
+        Store x = stored(1, 2);
         Due.thrown("7: none is open", STATE, x::commit);
         x.begin();
         Due.is("7: an empty one", x.commit(), 26);
@@ -328,8 +309,8 @@ public final class PromisesTest {
     }
 
     private static void promise7Size() {
-        LsmStore x = new LsmStore();
-        fillValue(x, 200);
+        Store x = new Store();
+        Make.value(x, 200);
         for (int batch = 0; batch < 2; batch++) {
             x.begin();
             for (int i = 0; i < 38; i++) {
@@ -361,7 +342,7 @@ public final class PromisesTest {
     }
 
     private static void promise8() {
-        LsmStore x = stored(1, 2);
+        Store x = stored(1, 2);
         Due.thrown("8: none is open", STATE, x::cancel);
         x.begin();
         Due.is("8: an empty one", x.cancel(), 0);
@@ -379,7 +360,7 @@ public final class PromisesTest {
     }
 
     private static void promise9() {
-        LsmStore x = stored(1);
+        Store x = stored(1);
         for (int i = 0; i < 8; i++) {
             Due.is("9: the least free number", x.snapshot(), i);
             x.key(2 + i, 2, true);
@@ -395,7 +376,7 @@ public final class PromisesTest {
         Due.is("9: it sees what was then", x.get(5), 3);
         Due.is("9: others do not", x.get(4), -1);
         Due.is("9: the last of the first ones does not", x.get(7), -1);
-        LsmStore y = new LsmStore();
+        Store y = new Store();
         Due.is("9: of nothing", y.snapshot(), 0);
         y.key(1, 1, true);
         y.put();
@@ -408,7 +389,7 @@ public final class PromisesTest {
     }
 
     private static void promise10() {
-        LsmStore x = stored(1);
+        Store x = stored(1);
         Due.thrown("10: none", NO_SUCH, () -> x.release(0));
         x.snapshot();
         x.snapshot();
@@ -426,7 +407,7 @@ public final class PromisesTest {
     }
 
     private static void promise11() {
-        LsmStore x = stored(1, 2);
+        Store x = stored(1, 2);
         x.snapshot();
         x.key(2, 2, true);
         x.value(0x77, 1, true);
@@ -456,7 +437,7 @@ public final class PromisesTest {
     }
 
     private static void promise12() {
-        LsmStore x = stored(0x0100, 0x0180, 0x01FF, 0x7F00, 0x80FF);
+        Store x = stored(0x0100, 0x0180, 0x01FF, 0x7F00, 0x80FF);
         x.key(1, 1, true);
         x.value(1, 1, true);
         x.put();
@@ -494,11 +475,11 @@ public final class PromisesTest {
     }
 
     private static void promise13() {
-        LsmStore x = stored(0x0100, 0x0180, 0x7F00, 0x80FF);
+        Store x = stored(0x0100, 0x0180, 0x7F00, 0x80FF);
         x.key(1, 1, true);
         x.value(1, 1, true);
         x.put();
-        fillKey(x, -1, 32);
+        Make.key(x, -1, 32);
         long[] previous = {0x80FF, 0x7F00, 0x0180, 0x0100};
         for (long key : previous) {
             Due.is("13: before", x.before(-1), 2);
@@ -528,7 +509,7 @@ public final class PromisesTest {
     }
 
     private static void promise14() {
-        LsmStore x = new LsmStore();
+        Store x = new Store();
         x.key(0x8102030405060708L, 8, true);
         x.key(0xFFL, 1, false);
         x.value(0x1112L, 2, true);
@@ -556,7 +537,7 @@ public final class PromisesTest {
     }
 
     private static void promise15() {
-        LsmStore x = stored(1, 2, 3);
+        Store x = stored(1, 2, 3);
         x.snapshot();
         x.remove();
         long map = x.digest(-1);
@@ -585,7 +566,7 @@ public final class PromisesTest {
     }
 
     private static void promise16() {
-        LsmStore x = stored(1, 2, 3, 4, 5, 6);
+        Store x = stored(1, 2, 3, 4, 5, 6);
         x.snapshot();
         x.remove();
         x.flush();
@@ -614,7 +595,7 @@ public final class PromisesTest {
 
     private static void promise17() {
         for (int b = 0; b <= 300; b++) {
-            LsmStore x = stored(1);
+            Store x = stored(1);
             x.power(0, 400 - b, b);
             x.key(2, 2, true);
             Due.thrown("17: cut after " + b, POWER, x::put);
@@ -626,7 +607,7 @@ public final class PromisesTest {
             Due.is("17: two commits are lasting", x.told(5), 2);
             Due.is("17: the map with it", x.reopen(), 26);
         }
-        LsmStore y = stored(1);
+        Store y = stored(1);
         y.power(0, 0, 0);
         y.power(1, 0, 0);
         Due.thrown("17: what was said before is forgotten", POWER, y::put);
@@ -653,7 +634,7 @@ public final class PromisesTest {
     }
 
     private static void promise17WrongInputs() {
-        LsmStore x = stored(1);
+        Store x = stored(1);
         x.power(1, 400, 300);
         Due.thrown("17: when -1", ARGUMENT, () -> x.power(-1, 0, 0));
         Due.thrown("17: when 4", ARGUMENT, () -> x.power(4, 0, 0));
@@ -667,7 +648,7 @@ public final class PromisesTest {
     }
 
     private static void promise17OneFailureOnly() {
-        LsmStore x = stored(1);
+        Store x = stored(1);
         x.power(0, 0, 0);
         Due.thrown("17: it fails", POWER, x::put);
         x.reopen();
@@ -682,7 +663,7 @@ public final class PromisesTest {
     }
 
     private static void promise18() {
-        LsmStore x = stored(1, 2);
+        Store x = stored(1, 2);
         x.snapshot();
         x.begin();
         x.remove();
@@ -699,13 +680,13 @@ public final class PromisesTest {
         Due.thrown("18: no batch", STATE, x::commit);
         Due.is("18: again", x.reopen(), 26);
         Due.is("18: the first number is free", x.snapshot(), 0);
-        LsmStore y = off();
+        Store y = off();
         Due.is("18: as it is OFF", y.reopen(), 13);
         Due.is("18: on", y.told(0), 1);
     }
 
     private static void promise18Power() {
-        LsmStore x = stored(1, 2, 3);
+        Store x = stored(1, 2, 3);
         long map = x.digest(-1);
         x.snapshot();
         x.begin();
@@ -726,7 +707,7 @@ public final class PromisesTest {
     }
 
     private static void promise19() {
-        LsmStore x = stored(1, 2, 3);
+        Store x = stored(1, 2, 3);
         x.snapshot();
         x.snapshot();
         x.release(0);
@@ -756,7 +737,7 @@ public final class PromisesTest {
     }
 
     private static void promise20() {
-        LsmStore x = new LsmStore();
+        Store x = new Store();
         Due.is("20: of nothing", x.digest(-1), 7);
         x.key(0xFF01, 2, true);
         x.value(0x80, 1, true);
@@ -784,9 +765,9 @@ public final class PromisesTest {
     }
 
     private static void promise21() {
-        LsmStore x = new LsmStore();
+        Store x = new Store();
         Due.is("21: of nothing", x.check(), 0);
-        fillValue(x, 120);
+        Make.value(x, 120);
         for (int i = 0; i < 110; i++) {
             x.key(i * 37 % 110, 2, true);
             x.put();

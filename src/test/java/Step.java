@@ -44,7 +44,7 @@ final class Step {
         return Due.answer(() -> call(face));
     }
 
-    private long call(Face face) {
+    long call(Face face) {
         switch (kind) {
             case KEY: return face.key(w, a, f);
             case VALUE: return face.value(w, a, f);
@@ -79,8 +79,9 @@ final class Step {
         for (int what = 0; what < 8; what++) {
             text.append(face.told(what)).append(' ');
         }
-        for (int at = 0; at <= 200; at += 8) {
-            text.append(face.bytes(false, at)).append(' ').append(face.bytes(true, at)).append(' ');
+        for (int at = 0; at < 200; at += 8) {
+            text.append(at < 32 ? face.bytes(false, at) : 0).append(' ');
+            text.append(face.bytes(true, at)).append(' ');
         }
         for (int s = -1; s < 8; s++) {
             int of = s;
