@@ -29,6 +29,8 @@ public final class DiskTest {
         smallFilesArePutTogether(1);
         smallFilesArePutTogether(-1);
         filterDeniesMost();
+        nineVersionsBehindAFullFile();
+        headOfMoreThanABlock();
         for (int last = 125; last <= 131; last++) {
             entriesThatJustFillABlock(last);
             blocksThatJustFillAFile(last);
@@ -143,7 +145,12 @@ public final class DiskTest {
         x.key(32, 2, true);
         Due.is("it sees what was", x.get(0), 80);
         Due.is("the map does not", x.get(-1), -1);
+        x.key(30 * 16, 2, true);
+        x.put();
         x.release(0);
+        x.compact();
+        Due.is("just what was put again is kept", Inside.number(Inside.of(x, "rows"), "count"), 1);
+        x.remove();
         x.compact();
         Due.is("then no file is left", Inside.tables(x, 2), 0);
         Due.is("and nothing is wrong", x.check(), 0);
@@ -174,6 +181,11 @@ public final class DiskTest {
         tables[1] = tables[0];
         tables[0] = first;
         Due.is("set right", x.check(), 0);
+        LsmStore y = filled(1, 1);
+        y.flush();
+        ((Object[]) Inside.of(Inside.level(y, 0), "tables"))[1] = Inside.table(y, 0, 0);
+        Inside.set(Inside.level(y, 0), "count", 2);
+        Due.is("files that share a key alone, and two blocks", y.check(), 3);
     }
 
     private static void checkSeesDeniedKeys() {
@@ -254,6 +266,10 @@ public final class DiskTest {
         }
         blocks[0] = was;
         Due.is("set right", x.check(), 0);
+        for (int outside : new int[] {-1, 3, 79, 592, 100000}) {
+            blocks[1] = outside;
+            Due.is("a filter outside denies five, and a block is in no file", x.check(), 5 + 1 + 1);
+        }
     }
 
     private static void blocksAreGivenBack() {
@@ -311,6 +327,64 @@ public final class DiskTest {
             Due.is("few files, way " + way, Math.max(files, 6), 6);
             Due.is("nothing is wrong", x.check(), 0);
         }
+    }
+
+    /** Three full blocks and a half, then a key that eight snapshots and the map see each another version of. */
+    private static void nineVersionsBehindAFullFile() {
+        LsmStore x = new LsmStore();
+        for (int i = 0; i < 25; i++) {
+            x.value(i, 8, false);
+        }
+        for (int i = 0; i < 7; i++) {
+            x.key(i, 2, true);
+            x.put();
+        }
+        x.key(7, 2, true);
+        for (int i = 0; i < 9; i++) {
+            x.value(i, 8, true);
+            for (int n = 1; n < 25; n++) {
+                x.value(n, 8, false);
+            }
+            x.put();
+            if (i < 8) {
+                x.snapshot();
+            }
+        }
+        x.compact();
+        Due.is("one file", Inside.tables(x, 2), 1);
+        Due.is("eight blocks and the filter's", Inside.blockCount(x, 2, 0), 9);
+        Due.is("nothing is wrong", x.check(), 0);
+        for (int s = -1; s < 8; s++) {
+            Due.is("a version", x.get(s), 200);
+            Due.is("its first bytes", x.bytes(true, 0), s < 0 ? 8 : s);
+        }
+    }
+
+    /** Files of seven versions of a large map, more than 512 calls can make: their list takes two blocks. */
+    private static void headOfMoreThanABlock() {
+        LsmStore x = new LsmStore();
+        long[] maps = new long[7];
+        for (int s = 0; s < 7; s++) {
+            for (int i = 0; i < 25; i++) {
+                x.value(s * 1000 + i, 8, i == 0);
+            }
+            for (int i = 0; i < 76; i++) {
+                x.key(i, 2, true);
+                x.put();
+            }
+            maps[s] = x.digest(-1);
+            x.snapshot();
+        }
+        x.flush();
+        Due.is("a long head", Inside.number(Inside.of(x, "head"), "length") > BLOCK ? 1 : 0, 1);
+        for (int s = 0; s < 7; s++) {
+            Due.is("snapshot " + s, x.digest(s), maps[s]);
+        }
+        sameFromDisk("a long head", x);
+        x.power(2, 60, 100);
+        Due.same("reopen", Due.answer(x::reopen), "throws.ArithmeticException");
+        Due.is("behind a failure", x.reopen(), 15960);
+        Due.is("the map", x.digest(-1), maps[6]);
     }
 
     /** Entries of 128 bytes, four to a block, but the last one of so many. */
@@ -393,7 +467,7 @@ public final class DiskTest {
         x.compact();
         int allowed = 0;
         for (int i = 0; i < 2000; i++) {
-            byte[] key = {(byte) (i >> 8), (byte) (i | 1), (byte) i};
+            byte[] key = {(byte) (i >> 7), (byte) (i << 1 | 1)};
             for (int n = 0; n < Inside.tables(x, 2); n++) {
                 allowed += Inside.allows(Inside.table(x, 2, n), key) ? 1 : 0;
             }

@@ -219,7 +219,28 @@ public final class PowerCutTest {
                     pair.goOn("a value of " + inValue + ", when " + when + ", cut after " + b);
                 }
             }
+            placeIsBlankAgain(inValue);
         }
+    }
+
+    private static void placeIsBlankAgain(int inValue) {
+        LsmStore x = new LsmStore();
+        for (int i = 0; i < 200; i++) {
+            x.value(i, 1, false);
+        }
+        x.key(1, 2, true);
+        x.put();
+        x.put();
+        for (int i = 0; i < inValue; i++) {
+            x.value(i, 1, i == 0);
+        }
+        x.key(1, 1, true);
+        x.put();
+        x.flush();
+        x.flush();
+        x.put();
+        x.flush();
+        Due.is("blank where a log ended by a value of " + inValue, soiled(x), 0);
     }
 
     /** A large record that was cut must not shine through when its place is used again. */
