@@ -235,7 +235,7 @@ public final class BatchBoundsTest {
         Due.is("SIZE is as it was", x.told(1), MOST_SIZE);
     }
 
-    /** One commit behind three bytes more for a new key: SIZE without it and with it. */
+    /** A map of 13 and a key that is not there: SIZE without the commit in which power fails, and with it. */
     private static void failingPower(int kind, int without, int with) {
         for (int when = 0; when <= 1; when++) {
             Face x = Both.fresh();

@@ -10,6 +10,29 @@ import java.util.TreeSet;
 public final class FaceTest {
     private static final int CALLS = 512;
 
+    /* Each cycle is gone through again and again till 512 calls are made. */
+    private static final Step[][] CYCLES = {
+        {step(Step.PUT)},
+        {step(Step.REMOVE)},
+        {step(Step.PUT), step(Step.FLUSH)},
+        {step(Step.PUT), step(Step.COMPACT)},
+        {step(Step.PUT), step(Step.REOPEN)},
+        {step(Step.PUT), step(Step.SNAPSHOT)},
+        {step(Step.PUT), step(Step.SNAPSHOT), step(Step.FLUSH), key(0x0102, 2)},
+        {step(Step.BEGIN), step(Step.COMMIT)},
+        {step(Step.BEGIN), step(Step.PUT), step(Step.PUT), step(Step.COMMIT), key(7, 1)},
+        {step(Step.BEGIN), step(Step.PUT)},
+        {step(Step.SNAPSHOT), new Step(Step.RELEASE, 0, 0, 0, false)},
+        {step(Step.FLUSH)},
+        {step(Step.COMPACT)},
+        {step(Step.REOPEN)},
+        {power(0, 0, 100), step(Step.PUT), step(Step.REOPEN)},
+        {power(1, 3, 100), step(Step.PUT), step(Step.REOPEN)},
+        {step(Step.PUT), power(2, 9, 9), step(Step.FLUSH), step(Step.REOPEN)},
+        {step(Step.PUT), power(2, 9, 9), step(Step.COMPACT), step(Step.REOPEN)},
+        {power(2, 41, 9), step(Step.REOPEN), step(Step.REOPEN), step(Step.PUT)},
+        {power(2, 9, 9), step(Step.REOPEN)}};
+
     private FaceTest() {
     }
 
@@ -72,29 +95,6 @@ public final class FaceTest {
         return new Step(Step.KEY, w, n, 0, true);
     }
 
-    /* Each cycle is gone through again and again till 512 calls are made. */
-    private static final Step[][] CYCLES = {
-        {step(Step.PUT)},
-        {step(Step.REMOVE)},
-        {step(Step.PUT), step(Step.FLUSH)},
-        {step(Step.PUT), step(Step.COMPACT)},
-        {step(Step.PUT), step(Step.REOPEN)},
-        {step(Step.PUT), step(Step.SNAPSHOT)},
-        {step(Step.PUT), step(Step.SNAPSHOT), step(Step.FLUSH), key(0x0102, 2)},
-        {step(Step.BEGIN), step(Step.COMMIT)},
-        {step(Step.BEGIN), step(Step.PUT), step(Step.PUT), step(Step.COMMIT), key(7, 1)},
-        {step(Step.BEGIN), step(Step.PUT)},
-        {step(Step.SNAPSHOT), new Step(Step.RELEASE, 0, 0, 0, false)},
-        {step(Step.FLUSH)},
-        {step(Step.COMPACT)},
-        {step(Step.REOPEN)},
-        {power(0, 0, 100), step(Step.PUT), step(Step.REOPEN)},
-        {power(1, 3, 100), step(Step.PUT), step(Step.REOPEN)},
-        {step(Step.PUT), power(2, 9, 9), step(Step.FLUSH), step(Step.REOPEN)},
-        {step(Step.PUT), power(2, 9, 9), step(Step.COMPACT), step(Step.REOPEN)},
-        {power(2, 41, 9), step(Step.REOPEN), step(Step.REOPEN), step(Step.PUT)},
-        {power(2, 9, 9), step(Step.REOPEN)}};
-
     /** The largest key and value, then the cycle till so many calls are made: each answers as is due. */
     private static Face turning(Step[] cycle, int calls) {
         Face x = Both.fresh();
@@ -106,7 +106,7 @@ public final class FaceTest {
         return x;
     }
 
-    /** 51 calls, the last of them check. */
+    /** 51 calls at most, the last of them check. */
     private static void allIsTold(Face x) {
         boolean on = x.told(0) == 1;
         x.power(3, 0, 0);

@@ -1,6 +1,6 @@
 /** Brings a store into a state that tests begin from. */
 final class Make {
-    /** More than any SIZE needs: an entry of a two-byte key and the largest value. */
+    /* What a two-byte key takes of SIZE with the largest value, and with an empty one. */
     private static final int LARGE = 8 + 2 + 200;
     private static final int SMALL = 8 + 2;
 
@@ -32,7 +32,7 @@ final class Make {
         }
     }
 
-    /** THE MAP gets just this SIZE, of 10 or more, by keys 0, 1, 2 and on; the first has 200 bytes if it can. */
+    /** An empty MAP gets just this SIZE (10 or more), by keys 0, 1, 2 and on with values as large as can be. */
     static void size(Face x, int size) {
         int left = size;
         int inValue = -1;
