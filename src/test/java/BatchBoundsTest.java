@@ -21,6 +21,7 @@ public final class BatchBoundsTest {
     }
 
     private static void put() {
+        Due.sentence("Promise 5", "THE VALUE is put for THE KEY", BatchBoundsTest::valueIsPutForKey);
         Due.sentence("Promise 5", "SIZE then (of THE MAP as it is; of a BATCH how many puts and removes)",
             BatchBoundsTest::putTellsSizeOrSteps);
         Due.sentence("Promise 5", "(into THE BATCH, if it is open)", BatchBoundsTest::sizeIsNotLookedAtInBatch);
@@ -50,7 +51,7 @@ public final class BatchBoundsTest {
     }
 
     private static void cancel() {
-        Due.sentence("Promise 8", "nothing of it is done: how many puts and removes it had",
+        Due.sentence("Promise 8", "THE BATCH is closed, nothing of it is done: how many puts and removes it had",
             BatchBoundsTest::cancelTellsSteps);
         Due.sentence("Promise 8", "IllegalStateException if none is open", () -> noBatchIsRefused(Face::cancel));
     }
@@ -89,6 +90,36 @@ public final class BatchBoundsTest {
                 Make.keys(x, 1, 100);
                 Make.batch(x, steps);
             }, Face::begin);
+        }
+    }
+
+    /** The value as it was when it was put, whatever THE VALUE and THE KEY become then. */
+    private static void valueIsPutForKey() {
+        for (int open = 0; open <= 1; open++) {
+            Face x = Both.fresh();
+            if (open == 1) {
+                x.begin();
+            }
+            x.key(0x4B31, 2, true);
+            x.value(0x5631, 2, true);
+            x.put();
+            x.value(0x32, 1, false);
+            x.key(0x32, 1, false);
+            x.put();
+            x.value(0, 0, true);
+            if (open == 1) {
+                x.commit();
+            }
+            Due.is("the second key's", x.get(-1), 3);
+            Due.is("its bytes", x.bytes(true, 0), 0x563132L << 40);
+            x.key(0x4B31, 2, true);
+            Due.is("the first key's", x.get(-1), 2);
+            Due.is("its bytes", x.bytes(true, 0), 0x5631L << 48);
+            x.value(0x99, 1, true);
+            Due.is("another is put", x.put(), 8 + 2 + 1 + 8 + 3 + 3);
+            x.value(0, 0, true);
+            Due.is("and is there alone", x.get(-1), 1);
+            Due.is("its byte", x.bytes(true, 0), 0x99L << 56);
         }
     }
 

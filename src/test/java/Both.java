@@ -21,6 +21,10 @@ final class Both implements InvocationHandler {
             Both.class.getClassLoader(), new Class<?>[] {Face.class}, new Both());
     }
 
+    static int callsOf(Face face) {
+        return ((Both) Proxy.getInvocationHandler(face)).calls;
+    }
+
     public Object invoke(Object proxy, Method method, Object[] arguments) {
         calls++;
         if (calls > MOST_CALLS) {

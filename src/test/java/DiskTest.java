@@ -2,41 +2,57 @@ import java.util.Random;
 
 /** What lasts stands on the disk alone; files have their form; check sees each kind of fault. */
 public final class DiskTest {
-    private static final int BLOCK = 512;
+    private static final int BLOCK = Inside.BLOCK;
 
     private DiskTest() {
     }
 
     public static void main(String[] args) {
+        whatItIs();
+        whatCheckSees();
         for (int run = 0; run < 60; run++) {
             diskAloneLasts(run);
         }
-        flushWritesIntoAFile();
-        compactPutsFilesTogether();
-        threeLevelsFill();
-        removesAndOldVersionsGo();
-        checkSeesDisorder();
-        checkSeesOverlap();
-        checkSeesDeniedKeys();
-        checkSeesBlocksOfTwoFiles();
-        checkSeesBlocksOfNone();
-        checkSeesBlocksOutside();
         blocksAreGivenBack();
-        justWhatIsSeenIsKept();
         for (int free = 0; free < 40; free++) {
             fullDiskLosesNothing(free);
         }
-        smallFilesArePutTogether(1);
-        smallFilesArePutTogether(-1);
-        filterDeniesMost();
         nineVersionsBehindAFullFile();
         headOfMoreThanABlock();
         for (int last = 125; last <= 131; last++) {
             entriesThatJustFillABlock(last);
             blocksThatJustFillAFile(last);
-            recordsThatJustFillTheLog(last);
         }
         Due.finish("DiskTest");
+    }
+
+    private static void whatItIs() {
+        Due.sentence("What it is", "a log", () -> {
+            flushWritesIntoAFile();
+            for (int last = 125; last <= 131; last++) {
+                recordsThatJustFillTheLog(last);
+            }
+        });
+        Due.sentence("What it is", "sorted files in three levels", DiskTest::threeLevelsFill);
+        Due.sentence("What it is", "filters", DiskTest::filterDeniesMost);
+        Due.sentence("What it is", "files that are put together", () -> {
+            compactPutsFilesTogether();
+            removesAndOldVersionsGo();
+            smallFilesArePutTogether(1);
+            smallFilesArePutTogether(-1);
+        });
+        Due.sentence("What it is", "snapshots that see what was", DiskTest::justWhatIsSeenIsKept);
+    }
+
+    private static void whatCheckSees() {
+        Due.sentence("Promise 21", "entries out of order", DiskTest::checkSeesDisorder);
+        Due.sentence("Promise 21", "files of a level that overlap", DiskTest::checkSeesOverlap);
+        Due.sentence("Promise 21", "keys that a filter denies", DiskTest::checkSeesDeniedKeys);
+        Due.sentence("Promise 21", "blocks that are in two files", DiskTest::checkSeesBlocksOfTwoFiles);
+        Due.sentence("Promise 21", "or in none", () -> {
+            checkSeesBlocksOfNone();
+            checkSeesBlocksOutside();
+        });
     }
 
     private static LsmStore filled(int keys, int valueWords) {

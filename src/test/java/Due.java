@@ -1,4 +1,11 @@
+import java.io.IOException;
+import java.io.UncheckedIOException;
+import java.nio.file.Files;
+import java.nio.file.Path;
+import java.nio.file.StandardOpenOption;
+import java.util.ArrayList;
 import java.util.Arrays;
+import java.util.List;
 
 /** What is due: prints every answer that is another, and counts them. */
 final class Due {
@@ -14,17 +21,17 @@ final class Due {
 
     private static int wrong = 0;
     private static int looked = 0;
-    private static int sentences = 0;
+    private static final List<String> SENTENCES = new ArrayList<>();
     private static String sentence = "";
 
     private Due() {
     }
 
-    /** A sentence of the document that names a boundary, in its own words, and the test of it. */
+    /** A sentence of the document, or a part of one, in its own words, and the test of it. */
     static void sentence(String section, String words, Act test) {
         int before = looked;
         sentence = section + ", \"" + words + "\": ";
-        sentences++;
+        SENTENCES.add(section + "\t" + words);
         try {
             test.run();
         } catch (RuntimeException e) {
@@ -78,10 +85,23 @@ final class Due {
     }
 
     static void finish(String test) {
-        String of = sentences > 0 ? " of " + sentences + " sentences" : "";
+        String of = SENTENCES.isEmpty() ? "" : " of " + SENTENCES.size() + " sentences";
         System.out.println(test + ": " + looked + " answers" + of + " looked at, " + wrong + " wrong");
         if (wrong > 0 || looked == 0) {
             System.exit(1);
+        }
+        noteSentences();
+    }
+
+    /** For Sentences, which looks at what all tests together have tested. */
+    private static void noteSentences() {
+        String place = System.getProperty("sentences");
+        if (place != null) {
+            try {
+                Files.write(Path.of(place), SENTENCES, StandardOpenOption.CREATE, StandardOpenOption.APPEND);
+            } catch (IOException e) {
+                throw new UncheckedIOException(e);
+            }
         }
     }
 

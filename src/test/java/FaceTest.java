@@ -4,6 +4,7 @@ import java.lang.reflect.Member;
 import java.lang.reflect.Method;
 import java.lang.reflect.Modifier;
 import java.util.Random;
+import java.util.Set;
 import java.util.TreeSet;
 
 /** The public face: just what the document writes, with just the exceptions that it names; and 512 calls. */
@@ -38,6 +39,12 @@ public final class FaceTest {
 
     public static void main(String[] args) {
         Due.sentence("The public face", "public final class LsmStore", FaceTest::justTheFace);
+        Due.sentence("The public face", "public LsmStore()", FaceTest::oneConstructor);
+        Due.sentence("Promise 1", "LsmStore()", FaceTest::oneConstructor);
+        Due.is("calls of the face", Document.countOfCalls(), Step.KINDS);
+        for (int kind = 0; kind < Step.KINDS; kind++) {
+            lineOfTheFace(kind);
+        }
         Due.sentence("What it is", "An object is used for at most 512 calls after it has been made", () -> {
             for (Step[] cycle : CYCLES) {
                 turning(cycle, CALLS);
@@ -46,16 +53,37 @@ public final class FaceTest {
             mostKeys();
         });
         Due.sentence("What it is", "what later calls answer is free", FaceTest::laterCallsThrowWhatIsNamed);
-        Due.sentence("The public face",
-            "public int put() throws IllegalStateException, IllegalArgumentException, ArithmeticException",
-            FaceTest::eachNamedExceptionComes);
         Due.finish("FaceTest");
+    }
+
+    /** A promise begins with its call's line, and promise 2 is that of the first call. */
+    private static void lineOfTheFace(int kind) {
+        String line = Document.lineOf(kind);
+        Due.sentence("The public face", line, () -> callIsThere(kind));
+        Due.sentence("Promise " + (kind + 2), line.replace("public ", ""), () -> justWhatIsNamedComes(kind));
+    }
+
+    private static void callIsThere(int kind) {
+        int found = 0;
+        for (Method method : LsmStore.class.getDeclaredMethods()) {
+            if (method.getName().equals(Step.nameOf(kind))) {
+                Due.same("the call", method.toString(), Document.methodOf(kind));
+                found++;
+            }
+        }
+        Due.is("one of this name", found, 1);
+    }
+
+    private static void oneConstructor() {
+        Constructor<?>[] all = LsmStore.class.getDeclaredConstructors();
+        Due.is("constructors", all.length, 1);
+        Due.same("the constructor", all[0].toString(), "public LsmStore()");
     }
 
     private static void justTheFace() {
         Due.same("the class", Modifier.toString(LsmStore.class.getModifiers()), "public final");
         TreeSet<String> want = new TreeSet<>();
-        for (int kind = 0; kind < Document.calls(); kind++) {
+        for (int kind = 0; kind < Document.countOfCalls(); kind++) {
             want.add(Document.methodOf(kind));
         }
         TreeSet<String> got = new TreeSet<>();
@@ -65,9 +93,6 @@ public final class FaceTest {
             }
         }
         Due.same("methods", got.toString(), want.toString());
-        for (Constructor<?> constructor : LsmStore.class.getDeclaredConstructors()) {
-            Due.same("constructor", constructor.toString(), "public LsmStore()");
-        }
         for (Field field : LsmStore.class.getDeclaredFields()) {
             Due.same(field.toString(), isOpen(field) ? "open" : "private", "private");
         }
@@ -150,21 +175,22 @@ public final class FaceTest {
         }
     }
 
-    /** Each exception that the face names for a call is thrown by it at some time, as the document says when. */
-    private static void eachNamedExceptionComes() {
+    /** Each exception that the face names for a call is thrown by it at some time, and no other ever. */
+    private static void justWhatIsNamedComes(int kind) {
         String[] all = {"IllegalArgumentException", "IllegalStateException", "NoSuchElementException",
             "ArithmeticException"};
-        for (int kind = 0; kind < Step.KINDS; kind++) {
-            for (String exception : all) {
-                boolean seen = false;
-                for (int state = 0; state < 5; state++) {
-                    String answer = inState(kind, state);
-                    seen = seen || answer.equals("throws." + exception);
-                }
-                boolean named = Document.mayThrow(kind, exception);
-                Due.is("call " + kind + ", " + exception, seen ? 1 : 0, named ? 1 : 0);
+        Set<String> came = new TreeSet<>();
+        for (int state = 0; state < 5; state++) {
+            came.add(inState(kind, state));
+        }
+        Set<String> named = new TreeSet<>();
+        for (String exception : all) {
+            if (Document.mayThrow(kind, exception)) {
+                named.add("throws." + exception);
             }
         }
+        came.removeIf(answer -> !answer.startsWith("throws."));
+        Due.same("what comes", came.toString(), named.toString());
     }
 
     /** Wrong arguments, OFF, power that fails in a commit or in upkeep, and a batch that is open. */

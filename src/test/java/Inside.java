@@ -1,8 +1,14 @@
 import java.lang.reflect.Field;
 import java.lang.reflect.Method;
+import java.util.Arrays;
 
 /** A look inside the store, for what its face cannot show. */
 final class Inside {
+    static final int BLOCK = 512;
+    static final int HEAD_BYTES = 4 * BLOCK;
+    static final int LOG_AT = 2 * HEAD_BYTES;
+    static final int LOG_BYTES = 36 * BLOCK;
+
     private Inside() {
     }
 
@@ -67,9 +73,47 @@ final class Inside {
 
     /** A new store that has nothing of another but its disk. */
     static LsmStore fromDiskOf(LsmStore store) {
+        return fromDisk(disk(store));
+    }
+
+    private static LsmStore fromDisk(byte[] image) {
         LsmStore next = new LsmStore();
-        byte[] from = disk(store);
-        System.arraycopy(from, 0, disk(next), 0, from.length);
+        System.arraycopy(image, 0, disk(next), 0, image.length);
         return next;
+    }
+
+    /** Which bytes of a disk reopen would read: those of the newest whole head, of its files and of its log. */
+    static boolean[] counting(byte[] image) {
+        LsmStore store = fromDisk(image);
+        load(store);
+        boolean[] counting = new boolean[image.length];
+        int generation = number(of(store, "head"), "generation");
+        if (generation > 0) {
+            int start = generation % 2 * HEAD_BYTES;
+            int length = (image[start + 4] & 255) << 8 | image[start + 5] & 255;
+            Arrays.fill(counting, start, start + length + 1, true);
+        }
+        Object log = of(store, "log");
+        int start = LOG_AT + number(log, "area") * LOG_BYTES;
+        Arrays.fill(counting, start, start + number(log, "used"), true);
+        for (int level = 0; level < 3; level++) {
+            for (int i = 0; i < tables(store, level); i++) {
+                for (int n = 0; n < blockCount(store, level, i); n++) {
+                    int block = blocks(store, level, i)[n] * BLOCK;
+                    Arrays.fill(counting, block, block + BLOCK, true);
+                }
+            }
+        }
+        return counting;
+    }
+
+    private static void load(LsmStore store) {
+        try {
+            Method method = LsmStore.class.getDeclaredMethod("load");
+            method.setAccessible(true);
+            method.invoke(store);
+        } catch (ReflectiveOperationException e) {
+            throw new IllegalStateException("no method load", e);
+        }
     }
 }

@@ -3,31 +3,46 @@ import java.util.Arrays;
 /** Power that fails at every write, after every number of bytes, of each call that writes. */
 public final class PowerCutTest {
     private static final int[] FEW_CUTS = {0, 1, 2, 3, 4, 5, 6, 7, 9, 17, 18, 100, 255, 256, 299, 300};
-    private static final int LOG_AT = 4096;
-    private static final int LOG_BYTES = 36 * 512;
+    private static final int LOG_AT = Inside.LOG_AT;
 
     private PowerCutTest() {
     }
 
     public static void main(String[] args) {
-        for (int steps : new int[] {1, 2, 5, 30, 64}) {
-            cutsBeforeLasting(steps);
-        }
-        for (int keys : new int[] {8, 30, 66}) {
-            cutsBehindLasting(keys);
-        }
-        for (int call : new int[] {Step.FLUSH, Step.COMPACT, Step.REOPEN}) {
-            for (int keys : new int[] {0, 1, 12, 66}) {
-                cutsInUpkeep(call, keys);
+        Due.sentence("What it is", "batches that come whole or not at all", () -> {
+            for (int steps : new int[] {1, 2, 5, 30, 64}) {
+                cutsBeforeLasting(steps);
             }
-            imagesGrowByteByByte(call);
-        }
-        imagesGrowByteByByte(Step.PUT);
+            for (int keys : new int[] {8, 30, 66}) {
+                cutsBehindLasting(keys);
+            }
+        });
+        Due.sentence("What it is", "power that fails at any byte of any write", () -> {
+            for (int call : new int[] {Step.PUT, Step.FLUSH, Step.COMPACT, Step.REOPEN}) {
+                imagesGrowByteByByte(call);
+            }
+            cutsInAllUpkeep();
+        });
+        Due.sentence("What it is", "A store of keys and values that only ever writes behind what it wrote", () -> {
+            for (int call : new int[] {Step.PUT, Step.FLUSH, Step.COMPACT, Step.REOPEN}) {
+                for (int keys : new int[] {0, 3, 10, 40, 65}) {
+                    nothingThatCountsIsWrittenOver(call, keys);
+                }
+            }
+        });
         placeOfTheLogIsBlank();
         failuresInARow();
         lastingWriteIsCutWhereSaid();
         recordsThatEndWithABlock();
         Due.finish("PowerCutTest");
+    }
+
+    private static void cutsInAllUpkeep() {
+        for (int call : new int[] {Step.FLUSH, Step.COMPACT, Step.REOPEN}) {
+            for (int keys : new int[] {0, 1, 12, 66}) {
+                cutsInUpkeep(call, keys);
+            }
+        }
     }
 
     /** The same calls on a store and its model: the same state, each time. */
@@ -165,6 +180,36 @@ public final class PowerCutTest {
         Due.is("call " + call + " comes to its end", differences(last, end) == 0 ? 1 : 0, 1);
     }
 
+    /** What is on the disk before write k of a call, or behind all if k is below 0. */
+    private static byte[] imageBefore(int call, int keys, int k) {
+        Pair pair = new Pair();
+        pair.fill(keys, 22);
+        pair.call(Step.SNAPSHOT, 0, 0, 0, false);
+        pair.fill(keys / 3, 3);
+        pair.call(Step.VALUE, 0x77, 8, 0, false);
+        pair.call(Step.KEY, 0x0708, 2, 0, true);
+        pair.call(Step.POWER, k < 0 ? 3 : call == Step.PUT ? 1 : 2, Math.max(0, k), 0, false);
+        pair.call(call, 0, 0, 0, false);
+        return Inside.disk(pair.store.store);
+    }
+
+    /** Each write leaves alone what counted before it. */
+    private static void nothingThatCountsIsWrittenOver(int call, int keys) {
+        byte[] end = imageBefore(call, keys, -1);
+        byte[] before = imageBefore(call, keys, 0);
+        for (int k = 1; k <= 400 && !Arrays.equals(before, end); k++) {
+            byte[] behind = imageBefore(call, keys, k);
+            boolean[] counting = Inside.counting(before);
+            int over = 0;
+            for (int i = 0; i < before.length; i++) {
+                over += counting[i] && before[i] != behind[i] ? 1 : 0;
+            }
+            Due.is("call " + call + " of " + keys + " keys, bytes that write " + (k - 1) + " changes", over, 0);
+            before = behind;
+        }
+        Due.is("call " + call + " comes to its end", differences(before, end), 0);
+    }
+
     private static void failuresInARow() {
         Pair pair = new Pair();
         pair.fill(66, 22);
@@ -277,9 +322,9 @@ public final class PowerCutTest {
 
     private static int soiled(LsmStore x) {
         Object log = Inside.of(x, "log");
-        int start = LOG_AT + Inside.number(log, "area") * LOG_BYTES;
+        int start = LOG_AT + Inside.number(log, "area") * Inside.LOG_BYTES;
         int soiled = 0;
-        for (int i = Inside.number(log, "used"); i < LOG_BYTES; i++) {
+        for (int i = Inside.number(log, "used"); i < Inside.LOG_BYTES; i++) {
             soiled += Inside.disk(x)[start + i] == 0 ? 0 : 1;
         }
         return soiled;

@@ -20,7 +20,10 @@ public final class RowBoundsTest {
     }
 
     private static void key() {
-        Due.sentence("Terms", "THE KEY and THE VALUE are rows of bytes", RowBoundsTest::oneRowLeavesTheOther);
+        Due.sentence("Terms", "THE KEY and THE VALUE are rows of bytes that are put together, or told", () -> {
+            oneRowLeavesTheOther();
+            rowsAreTold();
+        });
         Due.sentence("Promise 2", "The low n (0 to 8) bytes of w, the highest first, come to THE KEY",
             () -> lowBytesComeHighestFirst(KEY));
         Due.sentence("Promise 2", "(fresh: which is empty before): how many it has", () -> freshIsEmptyBefore(KEY));
@@ -130,6 +133,32 @@ public final class RowBoundsTest {
         x.key(0, 0, true);
         Due.is("the value stays", x.told(7), 200);
         Due.is("and its last bytes", x.bytes(VALUE, 192), 0x0102030405060708L * 8);
+    }
+
+    /** What get, seek and before tell is what bytes, told and put use then, as if it had been put together. */
+    private static void rowsAreTold() {
+        Face x = Both.fresh();
+        fill(x, KEY, 32);
+        fill(x, VALUE, 200);
+        x.put();
+        x.value(0x0A0B, 2, true);
+        Due.is("get tells the value", x.get(-1), 200);
+        Due.is("its last bytes", x.bytes(VALUE, 192), 0x0102030405060708L * 8);
+        x.key(0, 0, true);
+        x.value(0, 0, true);
+        Due.is("seek tells both", x.seek(-1, false), 32);
+        Due.is("the key's last bytes", x.bytes(KEY, 24), 0xF1F2F3F4F5F6F7F8L);
+        Due.is("the value's", x.told(7), 200);
+        x.key(-1, 8, true);
+        x.value(0, 0, true);
+        Due.is("before tells both", x.before(-1), 32);
+        Due.is("the value's", x.told(7), 200);
+        Due.is("what is told is put again", x.put(), 240);
+        x.key(0, 0, true);
+        x.seek(-1, false);
+        Due.thrown("more than 32 with what is told", Refused.ARGUMENT, () -> x.key(1, 1, false));
+        Due.thrown("more than 200 with what is told", Refused.ARGUMENT, () -> x.value(1, 1, false));
+        Due.is("what is told is removed", x.remove(), 0);
     }
 
     /** Byte i of the row is i + 1, so that every place has a byte of its own. */

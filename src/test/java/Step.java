@@ -69,6 +69,10 @@ final class Step {
         }
     }
 
+    static String nameOf(int kind) {
+        return NAMES[kind];
+    }
+
     String text() {
         return NAMES[kind] + "(" + w + ", " + a + ", " + b + ", " + f + ")";
     }

@@ -15,13 +15,14 @@ public final class TermsBoundsTest {
         Due.sentence("Terms", "VALUES 0 to 200", TermsBoundsTest::valuesOfAllLengths);
         Due.sentence("Terms", "KEYS are ordered byte by byte (0 to 255)", TermsBoundsTest::orderOfBytes);
         Due.sentence("Terms", "a beginning before what it begins", TermsBoundsTest::orderOfBeginnings);
+        Due.sentence("Terms", "THE MAP has a VALUE for each of some KEYS", TermsBoundsTest::oneValueForEachKey);
         Due.sentence("Terms", "its SIZE is the sum of 8 and the bytes of KEY and VALUE of all",
             TermsBoundsTest::sizeOfAll);
         Due.sentence("Terms", "at most 16000", TermsBoundsTest::largestMap);
     }
 
     private static void batchAndSnapshots() {
-        Due.sentence("Terms", "is a row of at most 64 puts and removes", TermsBoundsTest::longestBatch);
+        Due.sentence("Terms", "THE BATCH, if it is open, is a row of at most 64 puts and removes", TermsBoundsTest::longestBatch);
         Due.sentence("Terms", "that are not done yet", TermsBoundsTest::batchIsNotDoneYet);
         Due.sentence("Terms", "SNAPSHOTS 0 to 7 are THE MAP as it was when each was taken",
             TermsBoundsTest::eightViews);
@@ -144,6 +145,28 @@ public final class TermsBoundsTest {
                 Due.is("none before", x.before(-1), -1);
                 x.compact();
             }
+        }
+    }
+
+    /** Keys that are alike but for one byte or their length keep each its own value; a new one takes its place. */
+    private static void oneValueForEachKey() {
+        Face x = Both.fresh();
+        int[] lengths = {1, 2, 3, 31, 32};
+        for (int round = 0; round < 4; round++) {
+            for (int length : lengths) {
+                Make.key(x, 0x4141414141414141L, length);
+                x.value(length * 16 + round, 2, true);
+                x.put();
+            }
+            Due.is("as many keys", x.told(2), lengths.length);
+            for (int length : lengths) {
+                Make.key(x, 0x4141414141414141L, length);
+                Due.is("a value", x.get(-1), 2);
+                Due.is("its own", x.bytes(true, 0), (long) (length * 16 + round) << 48);
+            }
+            Make.key(x, 0x4141414141414141L, 4);
+            Due.is("none for another key", x.get(-1), -1);
+            moveOn(x, round);
         }
     }
 

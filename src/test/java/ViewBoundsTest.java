@@ -40,7 +40,9 @@ public final class ViewBoundsTest {
     }
 
     private static void seekAndBefore() {
-        Due.sentence("Promise 12", "the first KEY in SNAPSHOT s that is not before THE KEY", () -> seekFrom(false));
+        Due.sentence("Promise 12",
+            "THE KEY and THE VALUE become those of the first KEY in SNAPSHOT s that is not before THE KEY",
+            () -> seekFrom(false));
         Due.sentence("Promise 12", "(or, behind, is behind it): how many bytes that KEY has", () -> seekFrom(true));
         Due.sentence("Promise 12", "-1 without (both stay)", ViewBoundsTest::seekOfNothing);
         Due.sentence("Promise 12", "Thrown as by get", () -> {
@@ -236,6 +238,7 @@ public final class ViewBoundsTest {
         Make.key(x, from, bytes);
         int length = want == 0xFFFF ? 32 : want > 255 ? 2 : 1;
         Due.is("from " + Long.toHexString(from), x.seek(0, behind), length);
+        Due.is("its first bytes", x.bytes(false, 0), want == 0xFFFF ? -1 : want << 64 - 8 * length);
         Due.is("its value", x.bytes(true, 0), want << 40);
         Due.is("it is told", x.told(6), length);
     }
