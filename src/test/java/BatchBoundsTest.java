@@ -460,6 +460,20 @@ public final class BatchBoundsTest {
         Due.is("one key 64 times counts once", x.commit(), MOST_SIZE);
         x.begin();
         Due.is("nothing", x.commit(), MOST_SIZE);
+        largestBatch();
+    }
+
+    /** Every put of a new key, each key and value as large as can be. */
+    private static void largestBatch() {
+        Face x = Both.fresh();
+        Make.value(x, 200);
+        x.begin();
+        for (int i = 0; i < 64; i++) {
+            Make.key(x, i, 32);
+            x.put();
+        }
+        Due.is("the largest batch", x.commit(), 64 * 240);
+        Due.is("lasts", x.reopen(), 64 * 240);
     }
 
     /** Batches of every number of steps, each a put of another key. */

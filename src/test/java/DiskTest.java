@@ -9,14 +9,21 @@ public final class DiskTest {
 
     public static void main(String[] args) {
         whatItIs();
+        Due.sentence("Promise 15", "What was put is written into a file now", DiskTest::flushWritesIntoAFile);
+        Due.sentence("Promise 16", "Files are put together, as far as it may be", () -> {
+            compactPutsFilesTogether();
+            removesAndOldVersionsGo();
+        });
         whatCheckSees();
         for (int run = 0; run < 60; run++) {
             diskAloneLasts(run);
         }
         blocksAreGivenBack();
-        for (int free = 0; free < 40; free++) {
-            fullDiskLosesNothing(free);
-        }
+        Due.sentence("What it is", "what later calls answer is free", () -> {
+            for (int free = 0; free < 40; free++) {
+                fullDiskLosesNothing(free);
+            }
+        });
         nineVersionsBehindAFullFile();
         headOfMoreThanABlock();
         for (int last = 125; last <= 131; last++) {
@@ -37,7 +44,6 @@ public final class DiskTest {
         Due.sentence("What it is", "filters", DiskTest::filterDeniesMost);
         Due.sentence("What it is", "files that are put together", () -> {
             compactPutsFilesTogether();
-            removesAndOldVersionsGo();
             smallFilesArePutTogether(1);
             smallFilesArePutTogether(-1);
         });
@@ -220,6 +226,11 @@ public final class DiskTest {
     private static void checkSeesBlocksOfTwoFiles() {
         LsmStore x = filled(70, 20);
         x.compact();
+        ((Object[]) Inside.of(Inside.level(x, 0), "tables"))[0] = Inside.table(x, 2, 0);
+        Inside.set(Inside.level(x, 0), "count", 1);
+        Due.is("a file that is in two levels", x.check(), Inside.blockCount(x, 2, 0));
+        Inside.set(Inside.level(x, 0), "count", 0);
+        Due.is("set right", x.check(), 0);
         int[] second = Inside.blocks(x, 2, 1);
         int filter = Inside.blockCount(x, 2, 1) - 1;
         int was = second[filter];

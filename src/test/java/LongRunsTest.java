@@ -9,13 +9,17 @@ public final class LongRunsTest {
     }
 
     public static void main(String[] args) {
-        for (int run = 0; run < 24; run++) {
-            play(run);
-        }
-        manyVersionsOfManyKeys();
-        for (int run = 0; run < 300; run++) {
-            roomFor512Calls(run);
-        }
+        Due.sentence("What it is", "what later calls answer is free", () -> {
+            for (int run = 0; run < 24; run++) {
+                play(run);
+            }
+            manyVersionsOfManyKeys();
+        });
+        Due.sentence("What it is", "An object is used for at most 512 calls after it has been made", () -> {
+            for (int run = 0; run < 300; run++) {
+                roomFor512Calls(run);
+            }
+        });
         Due.finish("LongRunsTest");
     }
 

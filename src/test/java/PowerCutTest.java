@@ -161,14 +161,27 @@ public final class PowerCutTest {
         return differences;
     }
 
-    /** A cut one byte later may leave one byte more on the disk, and nothing else. */
+    private static int undone(byte[] before, byte[] last, byte[] next) {
+        int undone = 0;
+        for (int i = 0; i < last.length; i++) {
+            undone += last[i] != before[i] && next[i] != last[i] ? 1 : 0;
+        }
+        return undone;
+    }
+
+    /** A cut one byte later may leave one byte more on the disk, and nothing else; the next write keeps them. */
     private static void imagesGrowByteByByte(int call) {
         byte[] last = cutImage(call, 0, 0);
         byte[] end = cutImage(call, -1, 0);
+        byte[] before = last;
         int changes = 0;
         for (int k = 0; k <= 400 && !Arrays.equals(last, end); k++) {
             for (int b = 0; b <= 300; b++) {
                 byte[] next = cutImage(call, k, b);
+                if (b == 0) {
+                    Due.is("call " + call + ", what write " + k + " undoes", undone(before, last, next), 0);
+                    before = next;
+                }
                 int different = differences(last, next);
                 int most = b > 0 ? 1 : 512 - 300;
                 Due.is("call " + call + ", write " + k + " after " + b, Math.max(different, most), most);

@@ -185,6 +185,14 @@ public final class TermsBoundsTest {
         Due.is("four keys", x.told(2), 4);
         Due.is("behind reopen", x.reopen(), 498);
         Due.is("four keys behind reopen", x.told(2), 4);
+        Make.value(x, 199);
+        Due.is("a shorter value in its place", x.put(), 497);
+        Make.value(x, 200);
+        Due.is("a longer one", x.put(), 498);
+        Due.is("the largest goes", x.remove(), 258);
+        x.key(1, 1, true);
+        Due.is("the smallest goes", x.remove(), 249);
+        Due.is("two keys", x.told(2), 2);
     }
 
     private static void largestMap() {

@@ -244,6 +244,8 @@ public final class ViewBoundsTest {
     }
 
     private static void seekFrom(boolean behind) {
+        pastWhatIsRemoved(false);
+        fromAllPlaces(false);
         Face x = six();
         for (int i = 0; i < 2; i++) {
             seekIs(x, 0, 0, behind, 0x10);
@@ -306,7 +308,59 @@ public final class ViewBoundsTest {
         Due.is("its key", x.told(6), want == 0 ? bytes : length);
     }
 
+    /** Removed keys of any number stand between: in the log, in a file above the keys', and in the same. */
+    private static void pastWhatIsRemoved(boolean back) {
+        for (int removed : new int[] {1, 2, 3, 10, 40}) {
+            Face x = Both.fresh();
+            for (int i = 0; i < removed + 2; i++) {
+                Make.keys(x, i);
+            }
+            x.snapshot();
+            x.flush();
+            for (int i = 1; i <= removed; i++) {
+                x.key(i, 2, true);
+                x.remove();
+            }
+            for (int stage = 0; stage < 3; stage++) {
+                x.key(back ? removed + 1 : 0, 2, true);
+                Due.is("past " + removed, back ? x.before(-1) : x.seek(-1, true), 2);
+                Due.is("to the key", x.bytes(false, 0), back ? 0 : removed + 1L << 48);
+                Due.is("in the snapshot", back ? x.before(0) : x.seek(0, false), back ? -1 : 2);
+                if (stage == 0) {
+                    x.flush();
+                } else {
+                    x.compact();
+                }
+            }
+        }
+    }
+
+    /** Of three keys in a row one stands in the lowest level, one in the highest, and one in the log. */
+    private static void fromAllPlaces(boolean back) {
+        Face x = Both.fresh();
+        for (int place = 0; place < 3; place++) {
+            for (int i = 0; i < 10; i++) {
+                Make.keys(x, i * 3 + (i + place) % 3);
+            }
+            if (place == 0) {
+                x.compact();
+            } else if (place == 1) {
+                x.flush();
+            }
+        }
+        x.key(back ? 30 : 0, 2, true);
+        for (int i = 0; i < 30; i++) {
+            int want = back ? 29 - i : i;
+            Due.is("one more", back ? x.before(-1) : x.seek(-1, i > 0), 2);
+            Due.is("the key", x.bytes(false, 0), (long) want << 48);
+            Due.is("its value", x.bytes(true, 0), want * 3L << 40);
+        }
+        Due.is("no more", back ? x.before(-1) : x.seek(-1, true), -1);
+    }
+
     private static void lastBefore() {
+        pastWhatIsRemoved(true);
+        fromAllPlaces(true);
         Face x = six();
         for (int i = 0; i < 2; i++) {
             beforeIs(x, 0, 0, 0);
