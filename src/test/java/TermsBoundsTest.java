@@ -22,7 +22,8 @@ public final class TermsBoundsTest {
     }
 
     private static void batchAndSnapshots() {
-        Due.sentence("Terms", "THE BATCH, if it is open, is a row of at most 64 puts and removes", TermsBoundsTest::longestBatch);
+        Due.sentence("Terms", "THE BATCH, if it is open, is a row of at most 64 puts and removes",
+            TermsBoundsTest::longestBatch);
         Due.sentence("Terms", "that are not done yet", TermsBoundsTest::batchIsNotDoneYet);
         Due.sentence("Terms", "SNAPSHOTS 0 to 7 are THE MAP as it was when each was taken",
             TermsBoundsTest::eightViews);
